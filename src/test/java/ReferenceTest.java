@@ -1,0 +1,177 @@
+import java.util.Random;
+
+/** Random programs and calls (from fixed seeds), answered by the program and by Reference alike. */
+public final class ReferenceTest {
+    private static final int OBJECTS = 800;
+    private static final int CALLS = 150;
+    private static final int[] CONTROLS = {768, 772, 773, 832, 833, 834, 835, 836, 3072};
+
+    private final Random random;
+    private final CycleChip chip;
+    private final Reference reference;
+    private final String name;
+
+    private ReferenceTest(int seed) {
+        random = new Random(seed);
+        int latency = random.nextInt(8) == 0 ? random.nextInt(30) - 10 : 1 + random.nextInt(3);
+        int lines = random.nextInt(8) == 0 ? random.nextInt(30) - 10 : 1 + random.nextInt(8);
+        chip = new CycleChip(latency, lines);
+        reference = new Reference(latency, lines);
+        name = "seed " + seed + " (" + latency + ", " + lines + "): ";
+    }
+
+    public static void main(String[] args) {
+        for (int seed = 0; seed < OBJECTS && Due.wrong() == 0; seed++) {
+            ReferenceTest test = new ReferenceTest(seed);
+            test.prepare();
+            for (int k = 0; k < CALLS && Due.wrong() == 0; k++) {
+                test.call();
+                test.compareAll();
+            }
+        }
+        Due.end();
+    }
+
+    private void prepare() {
+        boolean wild = random.nextInt(10) == 0;
+        for (int p = 0; p < 128; p++) {
+            poke(p, wild ? wildWord() : word());
+        }
+        int[] start = {
+            Asm.deviceBase(),
+            Asm.li(30, random.nextInt(4) == 0 ? random.nextInt(2048) : 4 * random.nextInt(128) + random.nextInt(2)),
+            Asm.csrrw(0, Asm.MTVEC, 30), Asm.li(29, -1 - random.nextInt(2) * random.nextInt(2048)),
+            Asm.csrrw(0, Asm.MIE, 29), Asm.storeDevice(29, 4), Asm.storeDevice(28, 8),
+            Asm.csrrsi(0, Asm.MSTATUS, 8 * random.nextInt(2)), Asm.storeDevice(27, 2), Asm.storeDevice(0, 3)};
+        if (!wild) {
+            for (int k = 0; k < start.length; k++) {
+                poke(k, start[k]);
+            }
+        }
+        for (int k = 0; k < 32; k++) {
+            give(k, value());
+        }
+        give(27, 20 + random.nextInt(400));
+        give(28, random.nextInt());
+    }
+
+    private int value() {
+        switch (random.nextInt(6)) {
+            case 0: return random.nextInt();
+            case 1: return random.nextInt(8) - 4;
+            case 2: return Integer.MIN_VALUE + random.nextInt(3) - 1;
+            case 3: return 4096 + 4 * random.nextInt(16);
+            default: return 4 * random.nextInt(128);
+        }
+    }
+
+    private int wildWord() {
+        int[] kinds = {55, 23, 111, 103, 99, 51, 19, 3, 35, 15, 115, 0};
+        int w = random.nextInt();
+        return random.nextInt(6) == 0 ? w : w & -128 | kinds[random.nextInt(kinds.length)];
+    }
+
+    private int low() {
+        return random.nextInt(8);
+    }
+
+    private int device() {
+        return random.nextInt(16);
+    }
+
+    private int word() {
+        int d = low();
+        int a = low();
+        switch (random.nextInt(24)) {
+            case 0: return Asm.lui(d, random.nextInt());
+            case 1: return Asm.auipc(d, random.nextInt(8) * 4096);
+            case 2: return Asm.jal(d, 4 * (random.nextInt(9) - 2));
+            case 3: return random.nextInt(3) == 0 ? Asm.jalr(d, a, random.nextInt(64)) : Asm.jalr(d, 0, random.nextInt(512));
+            case 4:
+            case 5: return Asm.branch(random.nextInt(8), a, low(), 2 * (random.nextInt(20) - 4));
+            case 6: return Asm.r(51, random.nextInt(8), random.nextInt(3) == 0 ? 32 : 0, d, a, low());
+            case 7: return Asm.r(51, random.nextInt(8), 1, d, a, low());
+            case 8:
+            case 9: return Asm.i(19, random.nextInt(8), d, a, random.nextInt(3) == 0 ? random.nextInt() : random.nextInt(32));
+            case 10: return Asm.r(19, 5, 32 * random.nextInt(2), d, a, random.nextInt(32));
+            case 11:
+            case 12: return Asm.lw(d, 4 * random.nextInt(128), 0);
+            case 13: return Asm.lw(d, random.nextInt(3), a);
+            case 14:
+            case 15: return Asm.sw(a, 256 + 4 * random.nextInt(64), 0);
+            case 16: return Asm.sw(a, random.nextInt(512) & (random.nextInt(4) == 0 ? -1 : -4), random.nextInt(3) * low());
+            case 17:
+            case 18: return Asm.loadDevice(d, device());
+            case 19:
+            case 20: return Asm.storeDevice(a, device());
+            case 21: return random.nextInt(2) == 0 ? Asm.FENCE : Asm.FENCE_I;
+            case 22: return Asm.i(115, random.nextInt(8), d, a, CONTROLS[random.nextInt(9)] + random.nextInt(20) / 19);
+            default: return special();
+        }
+    }
+
+    private int special() {
+        switch (random.nextInt(6)) {
+            case 0: return Asm.ECALL;
+            case 1: return Asm.EBREAK;
+            case 2: return Asm.WFI;
+            case 3: return wildWord();
+            default: return Asm.MRET;
+        }
+    }
+
+    private void poke(int p, int w) {
+        Due.same(name + "poke", chip.poke(p, w), reference.poke(p, w));
+    }
+
+    private void give(int k, int v) {
+        Due.same(name + "give", chip.give(k, v), reference.give(k, v));
+    }
+
+    private void call() {
+        int kind = random.nextInt(12);
+        if (kind == 0) {
+            poke(random.nextInt(132) - 2, word());
+        } else if (kind == 1) {
+            give(random.nextInt(34) - 1, value());
+        } else if (kind <= 3) {
+            int delay = random.nextInt(10) == 0 ? random.nextInt(2010) - 5 : random.nextInt(40);
+            int what = random.nextInt(10) - 1;
+            int sent = random.nextInt(3) == 0 ? 0 : random.nextInt();
+            Due.same(name + "plan", chip.plan(delay, what, sent), reference.plan(delay, what, sent));
+        } else {
+            int n = random.nextInt(20) == 0 ? random.nextInt(300) : random.nextInt(12) - 1;
+            Due.same(name + "run " + n, chip.run(n), reference.run(n));
+        }
+    }
+
+    private void compareAll() {
+        String at = name + "cycle " + reference.cycles() + " ";
+        Due.same(at + "pc", chip.pc(), reference.pc());
+        Due.same(at + "cycles", chip.cycles(), reference.cycles());
+        Due.same(at + "traps", chip.traps(), reference.traps());
+        Due.same(at + "planned", chip.planned(), reference.planned());
+        Due.same(at + "stores", chip.stores(), reference.stores());
+        Due.same(at + "bus", chip.bus(), reference.bus());
+        Due.same(at + "sources", chip.sources(), reference.sources());
+        Due.same(at + "queued", chip.queued(true), reference.queued(true));
+        Due.same(at + "queued", chip.queued(false), reference.queued(false));
+        for (int p = -1; p <= 128; p++) {
+            Due.same(at + "peek " + p, chip.peek(p), reference.peek(p));
+            Due.same(at + "held code " + p, chip.held(true, p), reference.held(true, p));
+            Due.same(at + "held data " + p, chip.held(false, p), reference.held(false, p));
+        }
+        for (int k = -1; k <= 32; k++) {
+            Due.same(at + "register " + k, chip.register(k), reference.register(k));
+        }
+        for (int n : CONTROLS) {
+            Due.same(at + "control " + n, chip.control(n), reference.control(n));
+            Due.same(at + "control " + (n + 1), chip.control(n + 1), reference.control(n + 1));
+        }
+        for (int k = -2; k <= 17; k++) {
+            Due.same(at + "sent " + k, chip.sent(k), reference.sent(k));
+            Due.same(at + "actCycle " + k, chip.actCycle(k), reference.actCycle(k));
+            Due.same(at + "actAddress " + k, chip.actAddress(k), reference.actAddress(k));
+        }
+    }
+}
