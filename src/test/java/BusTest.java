@@ -1,0 +1,213 @@
+/** Promises 18 and 19: stores and bus, and the cycles that requests take. */
+public final class BusTest {
+    public static void main(String[] args) {
+        codeRequest();
+        storeRequest();
+        dataRequest();
+        deviceRequest();
+        bufferOfTwo();
+        coreBeforeTheBuffer();
+        loadHoldsForTheBuffer();
+        cachedLoadPassesTheBuffer();
+        deviceHoldsForTheBuffer();
+        fences();
+        olderStoresFirst();
+        staleCode();
+        Due.end();
+    }
+
+    private static void busIs(CycleChip chip, int cycles, int request, String what) {
+        for (int k = 0; k < cycles; k++) {
+            chip.run(1);
+            Due.same(what + ", cycle " + (chip.cycles() - 1), chip.bus(), request);
+        }
+    }
+
+    private static void codeRequest() {
+        CycleChip chip = new CycleChip(2, 8);
+        chip.poke(0, Asm.STAY);
+        Due.same("at first", chip.bus(), 0);
+        busIs(chip, 1, 0, "wanted");
+        busIs(chip, 8, 1, "code");
+        busIs(chip, 20, 0, "there");
+    }
+
+    private static void storeRequest() {
+        CycleChip chip = new CycleChip(3, 8);
+        Asm.put(chip, 0, Asm.sw(1, 508, 0), Asm.STAY);
+        chip.give(1, 42);
+        busIs(chip, 1, 0, "wanted");
+        busIs(chip, 12, 1, "code");
+        Due.same("none", chip.stores(), 0);
+        busIs(chip, 1, 0, "put into the buffer");
+        Due.same("one", chip.stores(), 1);
+        busIs(chip, 3, 4, "store");
+        Due.same("one until it is done", chip.stores(), 1);
+        Due.same("not written", chip.peek(127), 0);
+        busIs(chip, 1, 0, "done");
+        Due.same("none any more", chip.stores(), 0);
+        Due.same("written", chip.peek(127), 42);
+    }
+
+    private static void dataRequest() {
+        CycleChip chip = new CycleChip(3, 8);
+        Asm.put(chip, 0, Asm.lw(1, 508, 0), Asm.STAY);
+        chip.poke(127, 43);
+        chip.run(13);
+        busIs(chip, 1, 0, "data wanted");
+        busIs(chip, 12, 2, "data");
+        Due.same("not loaded", chip.register(1), 0);
+        busIs(chip, 1, 0, "data there");
+        Due.same("loaded", chip.register(1), 43);
+        Due.same("in cycle", chip.actCycle(0), 26);
+    }
+
+    private static void deviceRequest() {
+        CycleChip chip = new CycleChip(8, 8);
+        Asm.put(chip, 0, Asm.deviceBase(), Asm.loadDevice(1, 14), Asm.STAY);
+        chip.run(34);
+        busIs(chip, 1, 0, "device wanted");
+        busIs(chip, 1, 3, "device");
+        Due.same("not loaded", chip.register(1), 0);
+        busIs(chip, 1, 0, "device done");
+        Due.same("loaded", chip.register(1), 1);
+        Due.same("in cycle", chip.actCycle(1), 36);
+    }
+
+    /** The first store is in the buffer in 17, begun in 18 and done in 22; the third waits for that. */
+    private static void bufferOfTwo() {
+        CycleChip chip = new CycleChip(4, 8);
+        Asm.put(chip, 0, Asm.sw(1, 256, 0), Asm.sw(2, 260, 0), Asm.sw(3, 264, 0), Asm.STAY);
+        for (int k = 1; k < 4; k++) {
+            chip.give(k, k);
+        }
+        chip.run(18);
+        Due.same("one", chip.stores(), 1);
+        chip.run(1);
+        Due.same("two", chip.stores(), 2);
+        Due.same("three cycles of holding", chip.run(3), 0);
+        Due.same("two still", chip.stores(), 2);
+        Due.same("the third", chip.run(1), 1);
+        Due.same("two again", chip.stores(), 2);
+        Due.same("pc", chip.pc(), 12);
+        Due.same("its cycle", chip.actCycle(0), 22);
+        busIs(chip, 3, 4, "second store");
+        Due.same("first written", chip.peek(64), 1);
+        Due.same("second not", chip.peek(65), 0);
+        busIs(chip, 4, 4, "third store");
+        Due.same("one left", chip.stores(), 1);
+        busIs(chip, 1, 0, "all done");
+        Due.same("second written", chip.peek(65), 2);
+        Due.same("third written", chip.peek(66), 3);
+        Due.same("none left", chip.stores(), 0);
+    }
+
+    /** The stores act in 11 and 12; the first is served in 12 and 13, when the core wants block 1. */
+    private static void coreBeforeTheBuffer() {
+        CycleChip chip = new CycleChip(2, 8);
+        Asm.put(chip, 0, Asm.NOP, Asm.NOP, Asm.sw(1, 256, 0), Asm.sw(1, 260, 0), Asm.STAY);
+        chip.give(1, 5);
+        chip.run(12);
+        busIs(chip, 2, 4, "first store");
+        busIs(chip, 8, 1, "code, though a store is wanted");
+        Due.same("one store waits", chip.stores(), 1);
+        busIs(chip, 2, 4, "second store");
+        Due.same("acted when the code was there", chip.actCycle(0), 22);
+        busIs(chip, 3, 0, "nothing");
+        Due.same("written", chip.peek(65), 5);
+    }
+
+    /** The store acts in 5 and is done in 7; only then is DATA wanted, begun in 8 and done in 12. */
+    private static void loadHoldsForTheBuffer() {
+        CycleChip chip = Asm.chip(Asm.sw(1, 256, 0), Asm.lw(2, 256, 0), Asm.STAY);
+        chip.give(1, 9);
+        chip.run(6);
+        busIs(chip, 1, 4, "store");
+        busIs(chip, 1, 0, "store done, data wanted");
+        busIs(chip, 4, 2, "data");
+        Due.same("not loaded", chip.register(2), 0);
+        chip.run(1);
+        Due.same("loaded", chip.register(2), 9);
+        Due.same("in cycle", chip.actCycle(0), 12);
+    }
+
+    /** A block that the data cache holds is changed there at once, and loaded from there. */
+    private static void cachedLoadPassesTheBuffer() {
+        CycleChip chip = new CycleChip(8, 8);
+        Asm.put(chip, 0, Asm.lw(1, 256, 0), Asm.sw(2, 260, 0), Asm.lw(3, 260, 0), Asm.STAY);
+        chip.give(2, 6);
+        chip.run(66);
+        Due.same("nothing loaded", chip.actCycle(0), -1);
+        chip.run(2);
+        Due.same("load and store acted", chip.actCycle(0), 67);
+        Due.same("changed in the cache", chip.held(false, 65), 6);
+        Due.same("neighbour", chip.held(false, 64), 0);
+        Due.same("not in the memory", chip.peek(65), 0);
+        Due.same("loaded at once", chip.run(1), 1);
+        Due.same("loaded", chip.register(3), 6);
+        Due.same("still in the buffer", chip.stores(), 1);
+        Due.same("a store fills no line", chip.held(true, 64), -1);
+        CycleChip other = Asm.chip(Asm.sw(2, 256, 0), Asm.STAY);
+        other.run(30);
+        Due.same("a store alone fills no line", other.held(false, 64), -1);
+    }
+
+    /** The store acts in 18 and is done in 23; DEVICE is wanted in 23, begun in 24, done in 25. */
+    private static void deviceHoldsForTheBuffer() {
+        for (int word : new int[] {Asm.loadDevice(2, 0), Asm.storeDevice(2, 14)}) {
+            CycleChip chip = new CycleChip(4, 8);
+            Asm.put(chip, 0, Asm.deviceBase(), Asm.sw(1, 256, 0), word, Asm.STAY);
+            chip.run(19);
+            busIs(chip, 4, 4, "store");
+            busIs(chip, 1, 0, "device wanted");
+            busIs(chip, 1, 3, "device");
+            busIs(chip, 1, 0, "device done");
+            Due.same("cycle of the device", chip.actCycle(1), 25);
+            Due.same("address of the device", chip.actAddress(1), 8);
+        }
+    }
+
+    private static void fences() {
+        for (int fence : new int[] {Asm.FENCE, Asm.FENCE_I, Asm.FENCE | 0x0FF00000, Asm.FENCE_I | 31 << 7 | 31 << 15}) {
+            CycleChip chip = new CycleChip(4, 8);
+            Asm.put(chip, 0, Asm.lw(1, 0, 0), Asm.sw(1, 256, 0), fence, Asm.STAY);
+            chip.run(36);
+            Due.same("load and store", chip.actAddress(0), 4);
+            Due.same("holds", chip.run(4), 0);
+            Due.same("code held", chip.held(true, 0), Asm.lw(1, 0, 0));
+            Due.same("acts when the buffer is empty", chip.run(1), 1);
+            boolean all = (fence >> 12 & 7) == 1;
+            Due.same("code held", chip.held(true, 0), all ? -1 : Asm.lw(1, 0, 0));
+            Due.same("data held", chip.held(false, 0), Asm.lw(1, 0, 0));
+            Due.same("cycle", chip.actCycle(0), 40);
+            Due.same("no rest", chip.run(1), all ? 0 : 1);
+        }
+        for (int f = 2; f < 8; f++) {
+            CycleChip chip = Asm.chip(Asm.FENCE | f << 12);
+            chip.run(6);
+            Due.same("no such fence", chip.control(Asm.MCAUSE), 2);
+        }
+    }
+
+    private static void olderStoresFirst() {
+        CycleChip chip = new CycleChip(4, 8);
+        Asm.put(chip, 0, Asm.sw(1, 256, 0), Asm.sw(2, 256, 0), Asm.STAY);
+        chip.give(1, 1);
+        chip.give(2, 2);
+        chip.run(23);
+        Due.same("the older", chip.peek(64), 1);
+        chip.run(4);
+        Due.same("then the newer", chip.peek(64), 2);
+    }
+
+    /** A store reaches the memory, but not the code cache, until a fence empties that. */
+    private static void staleCode() {
+        CycleChip chip = Asm.chip(Asm.sw(1, 8, 0), Asm.FENCE, Asm.li(2, 1), Asm.FENCE_I, Asm.jal(0, -8));
+        chip.give(1, Asm.li(2, 7));
+        chip.run(10);
+        Due.same("written", chip.peek(2), Asm.li(2, 7));
+        Due.same("the old word was done", chip.register(2), 1);
+        chip.run(30);
+        Due.same("the new word was done", chip.register(2), 7);
+    }
+}
