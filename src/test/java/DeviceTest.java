@@ -6,6 +6,7 @@ public final class DeviceTest {
         timeWraps();
         compareIsUnsigned();
         compareIsKept();
+        storesTouchOneRegister();
         Due.end();
     }
 
@@ -63,6 +64,43 @@ public final class DeviceTest {
         chip.give(1, -1);
         chip.run(60);
         Due.same("TIME with its highest bit", chip.control(Asm.MIP), 128);
+    }
+
+    /** Of the registers that keep what is stored, a store changes its own alone; OVERRUN counts as one. */
+    private static void storesTouchOneRegister() {
+        int[] keeping = {2, 3, 4, 5, 8, 14, 15, 13};
+        int[] preset = {1001, 1002, 36, 2, 0x01234560, 77, 0, 4};
+        int[] masks = {-1, -1, 254, 7, 0x77777770, 255, 3, 0};
+        int v = 0x7A5B6C55;
+        for (int r = 0; r < 16; r++) {
+            if (r == 6) {
+                continue;
+            }
+            CycleChip chip = Asm.chip(Asm.deviceBase());
+            int p = 1;
+            for (int k = 0; k < 7; k++) {
+                chip.give(1 + k, preset[k]);
+                chip.poke(p++, Asm.storeDevice(1 + k, keeping[k]));
+            }
+            chip.give(30, v);
+            chip.poke(p++, Asm.storeDevice(30, r));
+            for (int k = 0; k < 8; k++) {
+                chip.poke(p++, Asm.loadDevice(10 + k, keeping[k]));
+            }
+            chip.poke(p, Asm.STAY);
+            for (int k = 0; k < 9; k++) {
+                chip.plan(k, 0, k);
+            }
+            chip.run(200);
+            for (int k = 0; k < 7; k++) {
+                int want = keeping[k] == r ? v & masks[k] : preset[k];
+                Due.same("register " + keeping[k] + " after a store in " + r, chip.register(10 + k), want);
+            }
+            Due.same("OVERRUN after a store in " + r, chip.register(17) & 4, r == 13 ? 0 : 4);
+            Due.same("received after a store in " + r, chip.queued(false), 8);
+            Due.same("a byte is sent after a store in " + r, chip.register(17) & 8, r == 12 ? 8 : 0);
+            Due.same("no trap", chip.traps(), 0);
+        }
     }
 
     private static void compareIsKept() {

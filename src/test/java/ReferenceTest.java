@@ -32,14 +32,22 @@ public final class ReferenceTest {
         Due.end();
     }
 
+    /** Goes on behind the instruction that trapped, so that programs come far. */
+    private static final int HANDLER = 112;
+    private static final int[] HANDLER_WORDS = {
+        Asm.csrrs(16, Asm.MEPC, 0), Asm.addi(16, 16, 4), Asm.i(19, 7, 16, 16, 508), Asm.csrrw(0, Asm.MEPC, 16),
+        Asm.loadDevice(17, 6), Asm.storeDevice(17, 6), Asm.loadDevice(18, 0), Asm.addi(18, 18, 150),
+        Asm.storeDevice(18, 2), Asm.MRET};
+
     private void prepare() {
         boolean wild = random.nextInt(10) == 0;
+        boolean handled = random.nextInt(4) != 0;
         for (int p = 0; p < 128; p++) {
             poke(p, wild ? wildWord() : word());
         }
         int[] start = {
             Asm.deviceBase(),
-            Asm.li(30, random.nextInt(4) == 0 ? random.nextInt(2048) : 4 * random.nextInt(128) + random.nextInt(2)),
+            Asm.li(30, handled ? 4 * HANDLER : random.nextInt(4) == 0 ? random.nextInt(2048) : random.nextInt(512)),
             Asm.csrrw(0, Asm.MTVEC, 30), Asm.li(29, -1 - random.nextInt(2) * random.nextInt(2048)),
             Asm.csrrw(0, Asm.MIE, 29), Asm.storeDevice(29, 4), Asm.storeDevice(28, 8),
             Asm.csrrsi(0, Asm.MSTATUS, 8 * random.nextInt(2)), Asm.storeDevice(27, 2), Asm.storeDevice(0, 3)};
@@ -48,8 +56,16 @@ public final class ReferenceTest {
                 poke(k, start[k]);
             }
         }
+        if (handled) {
+            for (int k = 0; k < HANDLER_WORDS.length; k++) {
+                poke(HANDLER + k, HANDLER_WORDS[k]);
+            }
+        }
         for (int k = 0; k < 32; k++) {
             give(k, value());
+        }
+        for (int k = 8; k < 16; k++) {
+            give(k, random.nextInt(8));
         }
         give(27, 20 + random.nextInt(400));
         give(28, random.nextInt());
@@ -82,7 +98,7 @@ public final class ReferenceTest {
     private int word() {
         int d = low();
         int a = low();
-        switch (random.nextInt(24)) {
+        switch (random.nextInt(26)) {
             case 0: return Asm.lui(d, random.nextInt());
             case 1: return Asm.auipc(d, random.nextInt(8) * 4096);
             case 2: return Asm.jal(d, 4 * (random.nextInt(9) - 2));
@@ -103,9 +119,11 @@ public final class ReferenceTest {
             case 17:
             case 18: return Asm.loadDevice(d, device());
             case 19:
-            case 20: return Asm.storeDevice(a, device());
+            case 20: return Asm.storeDevice(random.nextInt(16), device());
             case 21: return random.nextInt(2) == 0 ? Asm.FENCE : Asm.FENCE_I;
             case 22: return Asm.i(115, random.nextInt(8), d, a, CONTROLS[random.nextInt(9)] + random.nextInt(20) / 19);
+            case 23: return Asm.loadDevice(d, 6);
+            case 24: return Asm.storeDevice(random.nextInt(16), 6);
             default: return special();
         }
     }
@@ -131,16 +149,18 @@ public final class ReferenceTest {
     private void call() {
         int kind = random.nextInt(12);
         if (kind == 0) {
-            poke(random.nextInt(132) - 2, word());
+            int p = random.nextInt(132) - 2;
+            poke(p, p >= HANDLER && p < HANDLER + HANDLER_WORDS.length ? HANDLER_WORDS[p - HANDLER] : word());
         } else if (kind == 1) {
-            give(random.nextInt(34) - 1, value());
+            int k = random.nextInt(18) - 1;
+            give(k == 16 ? 32 : k, k < 8 ? value() : random.nextInt(8));
         } else if (kind <= 3) {
             int delay = random.nextInt(10) == 0 ? random.nextInt(2010) - 5 : random.nextInt(40);
-            int what = random.nextInt(10) - 1;
+            int what = random.nextInt(3) == 0 ? 0 : random.nextInt(10) - 1;
             int sent = random.nextInt(3) == 0 ? 0 : random.nextInt();
             Due.same(name + "plan", chip.plan(delay, what, sent), reference.plan(delay, what, sent));
         } else {
-            int n = random.nextInt(20) == 0 ? random.nextInt(300) : random.nextInt(12) - 1;
+            int n = random.nextInt(10) == 0 ? random.nextInt(300) : random.nextInt(16) - 1;
             Due.same(name + "run " + n, chip.run(n), reference.run(n));
         }
     }

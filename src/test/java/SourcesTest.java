@@ -5,7 +5,9 @@ public final class SourcesTest {
     public static void main(String[] args) {
         pendingStays();
         claimAndEnd();
+        everySource();
         endOfOthersDoesNothing();
+        otherRegistersEndNothing();
         greatestPriorityFirst();
         raisedOrNot();
         registersAreKept();
@@ -68,6 +70,19 @@ public final class SourcesTest {
         Due.same("pending again, for the line is high", chip.sources(), 32);
     }
 
+    private static void everySource() {
+        for (int s = 2; s < 8; s++) {
+            CycleChip chip = controller(254, 0x11111111, 0, Asm.loadDevice(1, 6), Asm.storeDevice(1, 6), Asm.STAY);
+            chip.plan(0, s, 1);
+            chip.plan(1, s, 0);
+            runBehind(chip, 16);
+            Due.same("claimed " + s, chip.register(1), s);
+            Due.same("in service " + s, chip.sources(), (1 << s) * IN_SERVICE);
+            runBehind(chip, 20);
+            Due.same("ended " + s, chip.sources(), 0);
+        }
+    }
+
     private static void endOfOthersDoesNothing() {
         for (int v : new int[] {0, 1, 2, 4, 6, 7, 8, 37, -27, 5 + 256, Integer.MIN_VALUE, -1}) {
             CycleChip chip = controller(254, 0x11111111, 0, Asm.loadDevice(1, 6), Asm.storeDevice(2, 6), Asm.STAY);
@@ -76,6 +91,16 @@ public final class SourcesTest {
             chip.plan(1, 5, 0);
             runBehind(chip, 20);
             Due.same("in service after the end of " + v, chip.sources(), 32 * IN_SERVICE);
+        }
+    }
+
+    private static void otherRegistersEndNothing() {
+        for (int r = 0; r < 16; r++) {
+            CycleChip chip = controller(254, 0x11111111, 0, Asm.loadDevice(1, 6), Asm.storeDevice(1, r), Asm.STAY);
+            chip.plan(0, 5, 1);
+            chip.plan(1, 5, 0);
+            runBehind(chip, 20);
+            Due.same("in service after a store of 5 in " + r, chip.sources() / IN_SERVICE, r == 6 ? 0 : 32);
         }
     }
 

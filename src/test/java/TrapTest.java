@@ -251,5 +251,12 @@ public final class TrapTest {
         }
         Due.same("one cycle later", chip.run(1), 1);
         Due.same("the next", chip.actAddress(0), 20);
+        chip = Asm.chip(Asm.deviceBase(), Asm.storeDevice(0, 3), Asm.storeDevice(0, 2), Asm.csrrw(0, Asm.MIE, 3),
+            Asm.WFI, Asm.storeDevice(3, 3), Asm.li(5, 1), Asm.STAY);
+        chip.give(3, 128);
+        chip.run(100);
+        Due.same("nothing to be awake for any more", chip.control(Asm.MIP), 0);
+        Due.same("awake all the same", chip.register(5), 1);
+        Due.same("and at work", chip.run(10), 5);
     }
 }
