@@ -11,8 +11,11 @@ public final class BusTest {
         cachedLoadPassesTheBuffer();
         deviceHoldsForTheBuffer();
         fences();
+        allHoldForTwoStores();
+        holdingStoreChangesNothing();
         olderStoresFirst();
         staleCode();
+        codeWithoutTheStoreThatWaits();
         Due.end();
     }
 
@@ -74,7 +77,10 @@ public final class BusTest {
         Due.same("in cycle", chip.actCycle(1), 36);
     }
 
-    /** The first store is in the buffer in 17, begun in 18 and done in 22; the third waits for that. */
+    /**
+     * "if the buffer has two entries, it holds": the first store is in the buffer in 17, begun in 18 and done in 22; the
+     * second acts in 18; the third holds until 22.
+     */
     private static void bufferOfTwo() {
         CycleChip chip = new CycleChip(4, 8);
         Asm.put(chip, 0, Asm.sw(1, 256, 0), Asm.sw(2, 260, 0), Asm.sw(3, 264, 0), Asm.STAY);
@@ -102,7 +108,10 @@ public final class BusTest {
         Due.same("none left", chip.stores(), 0);
     }
 
-    /** The stores act in 11 and 12; the first is served in 12 and 13, when the core wants block 1. */
+    /**
+     * "If both want, the core's is begun when the request begun before this one was the buffer's": the stores act in 11
+     * and 12; the first is served in 12 and 13, when the core wants block 1.
+     */
     private static void coreBeforeTheBuffer() {
         CycleChip chip = new CycleChip(2, 8);
         Asm.put(chip, 0, Asm.NOP, Asm.NOP, Asm.sw(1, 256, 0), Asm.sw(1, 260, 0), Asm.STAY);
@@ -117,7 +126,10 @@ public final class BusTest {
         Due.same("written", chip.peek(65), 5);
     }
 
-    /** The store acts in 5 and is done in 7; only then is DATA wanted, begun in 8 and done in 12. */
+    /**
+     * "else if the buffer is not empty, it holds": the store acts in 5 and is done in 7; only then is DATA wanted, begun
+     * in 8 and done in 12.
+     */
     private static void loadHoldsForTheBuffer() {
         CycleChip chip = Asm.chip(Asm.sw(1, 256, 0), Asm.lw(2, 256, 0), Asm.STAY);
         chip.give(1, 9);
@@ -189,6 +201,50 @@ public final class BusTest {
         }
     }
 
+    /** With L = 2 the stores act in 9 and 10 and are done in 12 and 14: whatever holds for them goes on in 14. */
+    private static void allHoldForTwoStores() {
+        int[][] cases = {{Asm.lw(2, 256, 0), 0, 2}, {Asm.lw(2, 0, 31), 0, 3}, {Asm.sw(2, 4, 31), 0, 3}, {Asm.FENCE, 1, 0},
+            {Asm.FENCE_I, 1, 0}};
+        for (int[] c : cases) {
+            CycleChip chip = new CycleChip(2, 8);
+            chip.give(31, 4096);
+            Asm.put(chip, 0, Asm.sw(1, 256, 0), Asm.sw(1, 260, 0), c[0], Asm.WFI);
+            chip.run(11);
+            Due.same("two stores before " + c[0], chip.stores(), 2);
+            busIs(chip, 3, 4, "stores before " + c[0]);
+            Due.same("one store is left before " + c[0], chip.stores(), 1);
+            Due.same("held until now " + c[0], chip.actAddress(0), 4);
+            Due.same("held code " + c[0], chip.held(true, 0), Asm.sw(1, 256, 0));
+            Due.same("acts in 14 or not: " + c[0], chip.run(1), c[1]);
+            Due.same("no store is left", chip.stores(), 0);
+            if (c[2] != 0) {
+                busIs(chip, 1, c[2], "wanted in 14: " + c[0]);
+            }
+        }
+    }
+
+    /** "it holds (nothing changes ...)": a store that holds is not seen in the data cache until it acts. */
+    private static void holdingStoreChangesNothing() {
+        CycleChip chip = new CycleChip(4, 8);
+        Asm.put(chip, 0, Asm.lw(1, 256, 0), Asm.sw(2, 260, 0), Asm.sw(3, 264, 0), Asm.sw(4, 268, 0), Asm.STAY);
+        for (int k = 1; k < 5; k++) {
+            chip.give(k, 10 * k);
+        }
+        chip.run(37);
+        Due.same("load and both stores", chip.actAddress(0), 8);
+        Due.same("two stores", chip.stores(), 2);
+        for (int k = 0; k < 3; k++) {
+            Due.same("it holds", chip.run(1), 0);
+            Due.same("pc stays", chip.pc(), 12);
+            Due.same("cache of the second", chip.held(false, 66), 30);
+            Due.same("cache of the third", chip.held(false, 67), 0);
+        }
+        Due.same("it acts", chip.run(1), 1);
+        Due.same("cache of the third", chip.held(false, 67), 40);
+        Due.same("memory of the first", chip.peek(65), 20);
+        Due.same("memory of the third", chip.peek(67), 0);
+    }
+
     private static void olderStoresFirst() {
         CycleChip chip = new CycleChip(4, 8);
         Asm.put(chip, 0, Asm.sw(1, 256, 0), Asm.sw(2, 256, 0), Asm.STAY);
@@ -209,5 +265,16 @@ public final class BusTest {
         Due.same("the old word was done", chip.register(2), 1);
         chip.run(30);
         Due.same("the new word was done", chip.register(2), 7);
+    }
+
+    /** "as they are in memory then": CODE is served before the second store, which is to change a word of that block. */
+    private static void codeWithoutTheStoreThatWaits() {
+        CycleChip chip = new CycleChip(2, 8);
+        Asm.put(chip, 0, Asm.NOP, Asm.NOP, Asm.sw(1, 256, 0), Asm.sw(2, 20, 0), Asm.NOP, Asm.li(3, 1), Asm.STAY);
+        chip.give(2, Asm.li(3, 7));
+        chip.run(60);
+        Due.same("the memory has the new word", chip.peek(5), Asm.li(3, 7));
+        Due.same("the code cache has the old one", chip.held(true, 5), Asm.li(3, 1));
+        Due.same("which was done", chip.register(3), 1);
     }
 }

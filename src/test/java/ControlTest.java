@@ -6,13 +6,17 @@ public final class ControlTest {
         bitsThatAreKept();
         waysOfStoring();
         readsThatStoreNothing();
-        noSuchRegister();
+        cycleIsNotStored();
+        interruptBitsAreNotStored();
+        controlOfNoRegister();
+        instructionsOfNoRegister();
         cycleCount();
         timerBit();
         outsideBit();
         Due.end();
     }
 
+    /** "with the bits that are kept of what is stored". */
     private static void bitsThatAreKept() {
         int[] kept = {136, 2176, -3, -1, -4, -1, -1, 0};
         for (int k = 0; k < kept.length; k++) {
@@ -58,30 +62,79 @@ public final class ControlTest {
         Due.same("and back there", chip.control(Asm.MSCRATCH), 0);
     }
 
+    /** "with f = 2, 3, 6, 7 and a = 0 nothing is stored": CYCLE can be read so, and MIP and all others too. */
     private static void readsThatStoreNothing() {
         for (int f : new int[] {2, 3, 6, 7}) {
-            CycleChip chip = Asm.chip(Asm.i(115, f, 3, 0, Asm.CYCLE));
-            Due.same("CYCLE read with " + f, chip.run(6), 1);
+            CycleChip chip = Asm.chip(Asm.i(115, f, 3, 0, Asm.CYCLE), Asm.i(115, f, 4, 0, Asm.MIP),
+                Asm.csrrw(0, Asm.MSCRATCH, 1), Asm.i(115, f, 5, 0, Asm.MSCRATCH));
+            chip.give(1, -1);
+            chip.give(4, 9);
+            Due.same("all act with " + f, chip.run(9), 4);
             Due.same("CYCLE read with " + f, chip.register(3), 5);
-            refused(Asm.i(115, f, 3, 1, Asm.CYCLE));
+            Due.same("MIP read with " + f, chip.register(4), 0);
+            Due.same("MSCRATCH read with " + f, chip.register(5), -1);
+            Due.same("MSCRATCH kept with " + f, chip.control(Asm.MSCRATCH), -1);
         }
-        refused(Asm.csrrw(3, Asm.CYCLE, 0));
-        refused(Asm.csrrwi(3, Asm.CYCLE, 0));
     }
 
-    private static void noSuchRegister() {
-        CycleChip chip = new CycleChip(1, 1);
-        chip.run(9);
-        for (int n = -10; n < 5000; n++) {
-            if (n == 3072 || n >= 832 && n <= 836 || n >= 768 && n <= 773) {
-                continue;
+    /** "TRAP 2 with w when ... CYCLE would be stored": by f = 1 and 5 always, by the others unless a = 0. */
+    private static void cycleIsNotStored() {
+        refused(Asm.csrrw(3, Asm.CYCLE, 0));
+        refused(Asm.csrrw(3, Asm.CYCLE, 1));
+        refused(Asm.csrrw(0, Asm.CYCLE, 1));
+        refused(Asm.csrrwi(3, Asm.CYCLE, 0));
+        refused(Asm.csrrwi(3, Asm.CYCLE, 31));
+        for (int f : new int[] {2, 3, 6, 7}) {
+            refused(Asm.i(115, f, 3, 1, Asm.CYCLE));
+            refused(Asm.i(115, f, 0, 31, Asm.CYCLE));
+        }
+    }
+
+    /** "836 MIP: storing changes nothing", with bit 7 set (COMPARE 0) and not set, and is no trap. */
+    private static void interruptBitsAreNotStored() {
+        for (int f : new int[] {1, 2, 3, 5, 6, 7}) {
+            for (int compare : new int[] {0, 5000}) {
+                CycleChip chip = Asm.chip(Asm.deviceBase(), Asm.storeDevice(2, 2), Asm.storeDevice(0, 3),
+                    Asm.i(115, f, 3, 1, Asm.MIP), Asm.STAY);
+                chip.give(1, -1);
+                chip.give(2, compare);
+                chip.run(20);
+                Due.same("MIP stored with " + f, chip.control(Asm.MIP), compare == 0 ? 128 : 0);
+                Due.same("its value before with " + f, chip.register(3), compare == 0 ? 128 : 0);
+                Due.same("no trap with " + f, chip.traps(), 0);
             }
+        }
+    }
+
+    /** control: "0 when there is none". */
+    private static void controlOfNoRegister() {
+        CycleChip chip = null;
+        for (int n = -10; n < 8192; n++) {
+            if ((n + 10) % 400 == 0) {
+                chip = new CycleChip(1, 1);
+                chip.run(9);
+            }
+            if (indexOf(n) < 0) {
+                Due.same("control " + n, chip.control(n), 0);
+            }
+        }
+        for (int n : new int[] {Integer.MIN_VALUE, Integer.MIN_VALUE + Asm.CYCLE, Asm.CYCLE - 4096, Integer.MAX_VALUE}) {
             Due.same("control " + n, chip.control(n), 0);
         }
-        Due.same("control MIN", chip.control(Integer.MIN_VALUE), 0);
-        Due.same("control MAX", chip.control(Integer.MAX_VALUE), 0);
-        for (int n : new int[] {0, 767, 769, 770, 771, 774, 831, 837, 3071, 3073, 3074, 3200, 4095}) {
-            Due.same("control " + n, chip.control(n), 0);
+    }
+
+    private static int indexOf(int n) {
+        for (int k = 0; k < ALL.length; k++) {
+            if (ALL[k] == n) {
+                return k;
+            }
+        }
+        return -1;
+    }
+
+    /** "TRAP 2 with w when there is no such register", even when nothing would be stored. */
+    private static void instructionsOfNoRegister() {
+        for (int n : new int[] {0, 767, 769, 770, 771, 774, 831, 837, 2047, 2048, 3071, 3073, 3074, 3200, 4095}) {
             refused(Asm.csrrs(3, n, 0));
             refused(Asm.csrrw(3, n, 1));
             refused(Asm.csrrci(3, n, 1));
@@ -98,6 +151,7 @@ public final class ControlTest {
         Due.same("register of " + w, chip.register(3), 9);
     }
 
+    /** "CYCLE: how many cycles are over": none at first, and in cycle c there are c. */
     private static void cycleCount() {
         CycleChip chip = Asm.chip(Asm.NOP, Asm.csrrs(1, Asm.CYCLE, 0), Asm.STAY);
         for (int k = 0; k < 10; k++) {
@@ -107,7 +161,7 @@ public final class ControlTest {
         Due.same("CYCLE within cycle 6", chip.register(1), 6);
     }
 
-    /** COMPARE becomes 30; TIME is 30 when 30 cycles are over. */
+    /** "its bit 7 is set while TIME >= COMPARE": COMPARE becomes 30; TIME is 30 when 30 cycles are over. */
     private static void timerBit() {
         CycleChip chip = Asm.chip(Asm.deviceBase(), Asm.storeDevice(0, 3), Asm.storeDevice(1, 2), Asm.STAY);
         chip.give(1, 30);
@@ -120,6 +174,7 @@ public final class ControlTest {
         Due.same("no interrupt is taken", chip.traps(), 0);
     }
 
+    /** "bit 11 while a source is RAISED". */
     private static void outsideBit() {
         CycleChip chip = Asm.chip(Asm.deviceBase(), Asm.storeDevice(1, 4), Asm.storeDevice(2, 8), Asm.STAY);
         chip.give(1, 1 << 5);

@@ -4,7 +4,9 @@ public final class DeviceTest {
         timeIsLoaded();
         timeIsStored();
         timeWraps();
+        lowWordCarries();
         compareIsUnsigned();
+        timeAndCompare();
         compareIsKept();
         storesTouchOneRegister();
         Due.end();
@@ -37,7 +39,7 @@ public final class DeviceTest {
         Due.same("high word with the carry", chip.register(4), 78);
     }
 
-    /** TIME is all ones in the cycle in which its low word is stored, and 0 after it. */
+    /** "TIME (64 bits, wrapping)": it is all ones in the cycle in which its low word is stored, and 0 after it. */
     private static void timeWraps() {
         CycleChip chip = Asm.chip(Asm.deviceBase(), Asm.storeDevice(1, 1), Asm.storeDevice(1, 0), Asm.csrrs(3, Asm.MIP, 0),
             Asm.loadDevice(4, 1), Asm.STAY);
@@ -49,6 +51,45 @@ public final class DeviceTest {
         Due.same("after it", chip.control(Asm.MIP), 0);
         chip.run(30);
         Due.same("high word", chip.register(4), 0);
+    }
+
+    /** "TIME (64 bits, wrapping) grows by 1": the low word wraps into the high one, which wraps too. */
+    private static void lowWordCarries() {
+        int[][] cases = {{0, -1, 1, 1}, {6, -2, 7, 0}, {6, -3, 6, -1}, {-1, -1, 0, 1}, {Integer.MAX_VALUE, -1, Integer.MIN_VALUE, 1}};
+        for (int[] c : cases) {
+            for (int r = 0; r < 2; r++) {
+                CycleChip chip = Asm.chip(Asm.deviceBase(), Asm.storeDevice(1, 1), Asm.storeDevice(2, 0), Asm.loadDevice(3, r));
+                chip.give(1, c[0]);
+                chip.give(2, c[1]);
+                chip.run(13);
+                Due.same("TIME two cycles after " + c[0] + " " + c[1] + ", word " + r, chip.register(3), c[3 - r]);
+            }
+        }
+    }
+
+    /**
+     * "TIME >= COMPARE (as numbers 0 .. 2^64 - 1)": of TIME and COMPARE, high word and low word, and what MIP is in the
+     * cycle in which TIME was stored, and after it, when TIME is greater by 1.
+     */
+    private static void timeAndCompare() {
+        int max = Integer.MAX_VALUE;
+        int min = Integer.MIN_VALUE;
+        int[][] cases = {{0, 5, 0, 5, 128, 128}, {0, 4, 0, 5, 0, 128}, {0, 3, 0, 5, 0, 0}, {0, 0, 0, 0, 128, 128},
+            {0, -1, 1, 0, 0, 128}, {0, -1, 1, 1, 0, 0}, {1, 0, 0, -1, 128, 128}, {0, min, 0, max, 128, 128},
+            {0, max, 0, min, 0, 128}, {min, 0, max, -1, 128, 128}, {max, -1, min, 0, 0, 128}, {max, -2, min, 0, 0, 0},
+            {-1, -1, -1, -1, 128, 0}, {-1, -2, -1, -1, 0, 128}, {-1, -3, -1, -1, 0, 0}, {0, 0, -1, -1, 0, 0},
+            {-1, -1, 0, 0, 128, 128}};
+        for (int[] c : cases) {
+            CycleChip chip = Asm.chip(Asm.deviceBase(), Asm.storeDevice(3, 3), Asm.storeDevice(4, 2), Asm.storeDevice(1, 1),
+                Asm.storeDevice(2, 0), Asm.csrrs(5, Asm.MIP, 0), Asm.STAY);
+            for (int k = 0; k < 4; k++) {
+                chip.give(1 + k, c[k]);
+            }
+            chip.run(20);
+            String what = "TIME " + c[0] + " " + c[1] + " COMPARE " + c[2] + " " + c[3];
+            Due.same(what + " in the cycle", chip.register(5), c[4]);
+            Due.same(what + " after it", chip.control(Asm.MIP), c[5]);
+        }
     }
 
     private static void compareIsUnsigned() {

@@ -1,18 +1,26 @@
-/** The instructions of the document's terms: their results, their edges, and words that are none. */
+/** The instructions of the document's terms: their results and their edges. */
 public final class InstructionTest {
     private static final int MIN = Integer.MIN_VALUE;
     private static final int MAX = Integer.MAX_VALUE;
 
     public static void main(String[] args) {
         plain();
+        sumsWrap();
+        shiftsByFiveBits();
+        comparisons();
         constants();
         products();
         quotients();
+        divisionByZero();
+        leastByMinusOne();
+        allIsWorkedOutBefore();
         upperParts();
         branches();
+        leastAndGreatestBranch();
         jumps();
+        leastAndGreatestJump();
+        linkAtTheLastWord();
         loadsAndStores();
-        noInstructions();
         Due.end();
     }
 
@@ -35,28 +43,49 @@ public final class InstructionTest {
 
     private static void plain() {
         plainOf(0, 0, 5, 7, 12);
-        plainOf(0, 0, MAX, 1, MIN);
         plainOf(0, 32, 5, 7, -2);
-        plainOf(0, 32, MIN, 1, MAX);
         plainOf(1, 0, 3, 4, 48);
-        plainOf(1, 0, 3, 31, MIN);
-        plainOf(1, 0, 3, 32, 3);
-        plainOf(1, 0, 3, -31, 6);
-        plainOf(2, 0, -1, 1, 1);
-        plainOf(2, 0, 1, -1, 0);
-        plainOf(2, 0, 1, 1, 0);
-        plainOf(2, 0, MIN, MAX, 1);
-        plainOf(3, 0, -1, 1, 0);
-        plainOf(3, 0, 1, -1, 1);
-        plainOf(3, 0, 7, 7, 0);
-        plainOf(3, 0, MIN, MAX, 0);
         plainOf(4, 0, 0b1100, 0b1010, 0b0110);
         plainOf(5, 0, -16, 4, 0x0FFFFFFF);
-        plainOf(5, 0, -16, 36, 0x0FFFFFFF);
         plainOf(5, 32, -16, 4, -1);
-        plainOf(5, 32, -16, 33, -8);
         plainOf(6, 0, 0b1100, 0b1010, 0b1110);
         plainOf(7, 0, 0b1100, 0b1010, 0b1000);
+    }
+
+    /** "Ints wrap." */
+    private static void sumsWrap() {
+        plainOf(0, 0, MAX, 1, MIN);
+        plainOf(0, 0, MIN, MIN, 0);
+        plainOf(0, 0, -1, 1, 0);
+        plainOf(0, 0, MIN, -1, MAX);
+        plainOf(0, 32, MIN, 1, MAX);
+        plainOf(0, 32, 0, MIN, MIN);
+        plainOf(0, 32, MAX, -1, MIN);
+        constantOf(0, 2047, MAX, MIN + 2046);
+        constantOf(0, -2048, MIN, MAX - 2047);
+    }
+
+    /** "shifts are by the lowest five bits of y". */
+    private static void shiftsByFiveBits() {
+        int[][] cases = {{0, 0}, {1, 1}, {31, 31}, {32, 0}, {33, 1}, {63, 31}, {64, 0}, {-1, 31}, {-31, 1}, {-32, 0},
+            {MIN, 0}, {MAX, 31}};
+        for (int[] c : cases) {
+            int power = 1 << c[1];
+            plainOf(1, 0, 3, c[0], 3 * power);
+            plainOf(5, 0, MIN, c[0], (int) (2147483648L >> c[1]));
+            plainOf(5, 32, MIN, c[0], (int) -(2147483648L >> c[1]));
+            plainOf(5, 32, MAX, c[0], MAX >> c[1]);
+        }
+    }
+
+    /** Signed and unsigned, of equals and of the least and the greatest. */
+    private static void comparisons() {
+        int[][] cases = {{-1, 1, 1, 0}, {1, -1, 0, 1}, {1, 1, 0, 0}, {-1, -1, 0, 0}, {MIN, MAX, 1, 0}, {MAX, MIN, 0, 1},
+            {0, -1, 0, 1}, {-1, 0, 1, 0}, {MIN, MIN, 0, 0}, {6, 7, 1, 1}, {7, 6, 0, 0}};
+        for (int[] c : cases) {
+            plainOf(2, 0, c[0], c[1], c[2]);
+            plainOf(3, 0, c[0], c[1], c[3]);
+        }
     }
 
     private static void constantOf(int f, int constant, int xa, int want) {
@@ -95,18 +124,54 @@ public final class InstructionTest {
         }
     }
 
-    private static void quotients() {
-        int[][] cases = {{7, 2, 3, 3, 1, 1}, {-7, 2, -3, MAX - 3, -1, 1}, {7, -2, -3, 0, 1, 7}, {-7, -2, 3, 0, -1, -7},
-            {9, 0, -1, -1, 9, 9}, {-9, 0, -1, -1, -9, -9}, {0, 0, -1, -1, 0, 0}, {MIN, -1, MIN, 0, 0, MIN},
-            {MIN, 0, -1, -1, MIN, MIN}, {-1, MIN, 0, 1, -1, MAX}, {-1, -1, 1, 1, 0, 0}, {-2, 3, 0, 1431655764, -2, 2}};
-        for (int[] c : cases) {
-            for (int f = 4; f < 8; f++) {
-                plainOf(f, 1, c[0], c[1], c[f - 2]);
-            }
+    private static void quotientsOf(int[] c) {
+        for (int f = 4; f < 8; f++) {
+            plainOf(f, 1, c[0], c[1], c[f - 2]);
         }
     }
 
+    /** "xa / xb (cut towards 0)", "the remainder xa % xb", and "both unsigned". */
+    private static void quotients() {
+        int[][] cases = {{7, 2, 3, 3, 1, 1}, {-7, 2, -3, MAX - 3, -1, 1}, {7, -2, -3, 0, 1, 7}, {-7, -2, 3, 0, -1, -7},
+            {-1, MIN, 0, 1, -1, MAX}, {-1, -1, 1, 1, 0, 0}, {-2, 3, 0, 1431655764, -2, 2}, {0, 5, 0, 0, 0, 0},
+            {MIN, 1, MIN, MIN, 0, 0}, {MIN, MIN, 1, 1, 0, 0}, {MAX, MIN, 0, 0, MAX, MAX}, {MIN, MAX, -1, 1, -1, 1}};
+        for (int[] c : cases) {
+            quotientsOf(c);
+        }
+    }
+
+    /** "By 0 the quotient is -1, the remainder xa". */
+    private static void divisionByZero() {
+        for (int x : new int[] {0, 1, 9, -9, -1, MIN, MAX}) {
+            quotientsOf(new int[] {x, 0, -1, -1, x, x});
+        }
+    }
+
+    /** "-2^31 by -1: quotient -2^31, remainder 0"; unsigned it is a division like others. */
+    private static void leastByMinusOne() {
+        quotientsOf(new int[] {MIN, -1, MIN, 0, 0, MIN});
+        quotientsOf(new int[] {MIN + 1, -1, MAX, 0, 0, MIN + 1});
+        quotientsOf(new int[] {MAX, -1, MIN + 1, 0, 0, MAX});
+    }
+
+    /** "all values are worked out before anything changes": the register that changes is a part of the sum. */
+    private static void allIsWorkedOutBefore() {
+        CycleChip chip = Asm.chip(Asm.add(1, 1, 1), Asm.mul(1, 1, 1), Asm.div(1, 1, 1), Asm.jalr(1, 1, 63));
+        chip.give(1, 5);
+        chip.run(6);
+        Due.same("twice", chip.register(1), 10);
+        chip.run(1);
+        Due.same("squared", chip.register(1), 100);
+        chip.run(2);
+        Due.same("by itself", chip.register(1), 1);
+        chip.run(8);
+        Due.same("link", chip.register(1), 16);
+        Due.same("pc", chip.pc(), 64);
+    }
+
     private static void upperParts() {
+        gives("lui of the least", Asm.lui(3, MIN), 1, 2, MIN);
+        gives("lui of the greatest", Asm.lui(3, MAX), 1, 2, MAX - 4095);
         gives("lui", Asm.lui(3, 0x12345000), 1, 2, 0x12345000);
         gives("lui of -4096", Asm.lui(3, -4096), 1, 2, -4096);
         gives("auipc at 0", Asm.auipc(3, 0x7000), 1, 2, 0x7000);
@@ -130,6 +195,28 @@ public final class InstructionTest {
         chip.poke(4, Asm.branch(0, 0, 0, -16));
         chip.run(13);
         Due.same("back", chip.pc(), 0);
+    }
+
+    /** n is -4096 .. 4094; "a jump that is done to an address t with bit 1 set raises TRAP 0 with t". */
+    private static void leastAndGreatestBranch() {
+        for (int offset : new int[] {-4096, -4092, -4, 4, 4088, 4092}) {
+            CycleChip chip = Asm.chip(Asm.branch(0, 0, 0, offset));
+            Due.same("branch by " + offset, chip.run(6), 1);
+            Due.same("pc after a branch by " + offset, chip.pc(), offset);
+        }
+        for (int offset : new int[] {-4094, -2, 2, 4090, 4094}) {
+            goesAstray(Asm.branch(0, 0, 0, offset), offset);
+        }
+    }
+
+    private static void goesAstray(int w, int t) {
+        CycleChip chip = Asm.chip(w);
+        chip.give(3, 9);
+        Due.same("astray to " + t, chip.run(6), 0);
+        Due.same("astray to " + t + ", counted", chip.traps(), 1);
+        Due.same("astray to " + t + ", cause", chip.control(Asm.MCAUSE), 0);
+        Due.same("astray to " + t + ", value", chip.control(Asm.MTVAL), t);
+        Due.same("astray to " + t + ", link", chip.register(3), 9);
     }
 
     private static void branchOf(int f, int[] p, boolean done, int offset) {
@@ -162,17 +249,36 @@ public final class InstructionTest {
             Due.same("jalr pc", chip.pc(), c[2]);
             Due.same("jalr link in the register of the address", chip.register(1), 4);
         }
-        CycleChip chip = Asm.chip(Asm.jal(3, 6));
-        chip.give(3, 9);
-        Due.same("jal astray", chip.run(6), 0);
-        Due.same("jal astray leaves the link", chip.register(3), 9);
-        Due.same("jal astray cause", chip.control(Asm.MCAUSE), 0);
-        Due.same("jal astray value", chip.control(Asm.MTVAL), 6);
-        Due.same("jal astray counted", chip.traps(), 1);
-        chip = Asm.chip(Asm.jalr(3, 1, 3));
-        chip.give(1, 64);
-        chip.run(6);
-        Due.same("jalr astray value", chip.control(Asm.MTVAL), 66);
+    }
+
+    /** j is -1048576 .. 1048574; "a jump that is done to an address t with bit 1 set raises TRAP 0 with t". */
+    private static void leastAndGreatestJump() {
+        for (int offset : new int[] {-1048576, -1048572, 1048568, 1048572}) {
+            CycleChip chip = Asm.chip(Asm.jal(3, offset));
+            Due.same("jump by " + offset, chip.run(6), 1);
+            Due.same("pc after a jump by " + offset, chip.pc(), offset);
+        }
+        for (int offset : new int[] {-1048574, -2, 2, 6, 1048570, 1048574}) {
+            goesAstray(Asm.jal(3, offset), offset);
+        }
+        for (int offset : new int[] {-2048, 2044, 2045}) {
+            CycleChip chip = Asm.chip(Asm.jalr(3, 0, offset));
+            Due.same("jump to " + offset, chip.run(6), 1);
+            Due.same("pc after a jump to " + offset, chip.pc(), offset & -2);
+        }
+        for (int offset : new int[] {2, 3, 2046, 2047, -2046, -1}) {
+            goesAstray(Asm.jalr(3, 0, offset), offset & -2);
+        }
+    }
+
+    /** xd = PC + 4, though there is no word at that address. */
+    private static void linkAtTheLastWord() {
+        CycleChip chip = Asm.chip(Asm.jal(3, 508));
+        chip.poke(127, Asm.jal(4, -508));
+        chip.run(13);
+        Due.same("link at 0", chip.register(3), 4);
+        Due.same("link at 508", chip.register(4), 512);
+        Due.same("back", chip.pc(), 0);
     }
 
     private static void loadsAndStores() {
@@ -189,27 +295,5 @@ public final class InstructionTest {
         Due.same("store below its base", chip.peek(121), 1160);
         Due.same("store above its base", chip.peek(123), 1270);
         Due.same("no trap", chip.traps(), 0);
-    }
-
-    private static void noInstructions() {
-        int[] words = {0, -1, 1, 2, 0x7F, 4, 7, 11, 18, 51 | 2 << 25, 51 | 33 << 25, 51 | 64 << 25, 51 | 127 << 25,
-            Asm.r(51, 1, 32, 3, 1, 2), Asm.r(51, 2, 32, 3, 1, 2), Asm.r(51, 4, 32, 3, 1, 2), Asm.r(51, 7, 32, 3, 1, 2),
-            Asm.r(51, 5, 33, 3, 1, 2), Asm.r(19, 1, 32, 3, 1, 2), Asm.r(19, 1, 1, 3, 1, 2), Asm.r(19, 5, 1, 3, 1, 2),
-            Asm.r(19, 5, 33, 3, 1, 2), Asm.r(19, 5, 64, 3, 1, 2), Asm.i(103, 1, 3, 1, 0), Asm.i(103, 7, 3, 1, 0),
-            Asm.branch(2, 0, 0, 4), Asm.branch(3, 0, 0, 4), Asm.i(3, 0, 3, 0, 1), Asm.i(3, 1, 3, 0, 0),
-            Asm.i(3, 4, 3, 0, 0), Asm.i(3, 5, 3, 0, 0), Asm.r(35, 0, 0, 0, 0, 0), Asm.r(35, 1, 0, 1, 0, 0),
-            Asm.r(35, 3, 0, 0, 0, 0), Asm.ECALL | 128, Asm.EBREAK | 1 << 15, Asm.MRET + (1 << 20), Asm.WFI | 1 << 7,
-            115 | 2 << 20, Asm.i(115, 4, 3, 1, Asm.MSCRATCH), Asm.i(115, 4, 0, 0, 0)};
-        for (int w : words) {
-            CycleChip chip = Asm.chip(w);
-            chip.give(1, 64);
-            chip.give(3, 5);
-            Due.same("none: " + w, chip.run(6), 0);
-            Due.same("none, counted: " + w, chip.traps(), 1);
-            Due.same("none, cause: " + w, chip.control(Asm.MCAUSE), 2);
-            Due.same("none, value: " + w, chip.control(Asm.MTVAL), w);
-            Due.same("none, register: " + w, chip.register(3), 5);
-            Due.same("none, store: " + w, chip.stores(), 0);
-        }
     }
 }

@@ -1,11 +1,18 @@
-/** Promise 1: what a new object holds, and how latency and lines are kept within 1 .. 8. */
+/** Promise 1: what a new object holds, and how latency and lines are kept within 1 .. 8; and the 512 calls. */
 public final class ObjectTest {
+    private static final int[][] ONE_TO_EIGHT = {{Integer.MIN_VALUE, 1}, {-1, 1}, {0, 1}, {1, 1}, {2, 2}, {5, 5},
+        {7, 7}, {8, 8}, {9, 8}, {Integer.MAX_VALUE, 8}};
+
     public static void main(String[] args) {
         allIsZero();
-        latencyIsClamped();
-        linesAreClamped();
+        latencyOfBlocks();
+        latencyOfStores();
+        latencyIsNotThatOfDevices();
+        linesOfCode();
+        linesOfData();
         devicesAtFirst();
         objectsAreApart();
+        lastOfAllCalls();
         Due.end();
     }
 
@@ -37,25 +44,53 @@ public final class ObjectTest {
         Due.same("new actAddress", chip.actAddress(0), -1);
     }
 
-    /** CODE is wanted in cycle 0, begun in 1, and takes 4 * L. */
-    private static void latencyIsClamped() {
-        int[][] cases = {{Integer.MIN_VALUE, 1}, {-1, 1}, {0, 1}, {1, 1}, {2, 2}, {7, 7}, {8, 8},
-            {9, 8}, {Integer.MAX_VALUE, 8}};
-        for (int[] c : cases) {
+    /**
+     * "L is latency, but at least 1 and at most 8": CODE is wanted in cycle 0, begun in 1, and takes 4 * L; then the
+     * same for DATA.
+     */
+    private static void latencyOfBlocks() {
+        for (int[] c : ONE_TO_EIGHT) {
             CycleChip chip = new CycleChip(c[0], 8);
-            Asm.put(chip, 0, Asm.NOP);
+            Asm.put(chip, 0, Asm.NOP, Asm.lw(1, 256, 0));
             Due.same("latency " + c[0] + " early", chip.run(1 + 4 * c[1]), 0);
             Due.same("latency " + c[0] + " in time", chip.run(1), 1);
             Due.same("latency " + c[0] + " cycle", chip.actCycle(0), 1 + 4 * c[1]);
+            Due.same("latency " + c[0] + " data early", chip.run(1 + 4 * c[1]), 0);
+            Due.same("latency " + c[0] + " data in time", chip.run(1), 1);
+            Due.same("latency " + c[0] + " data cycle", chip.actCycle(0), 3 + 8 * c[1]);
         }
     }
 
-    /** Block 0 leaves the cache when the block N is fetched, and not before. */
-    private static void linesAreClamped() {
-        int[][] cases = {{Integer.MIN_VALUE, 1}, {-1, 1}, {0, 1}, {1, 1}, {2, 2}, {5, 5}, {7, 7}, {8, 8},
-            {9, 8}, {Integer.MAX_VALUE, 8}};
-        for (int[] c : cases) {
-            for (int block = 1; block < 16; block++) {
+    /** "L is latency, but at least 1 and at most 8": a STORE takes L. */
+    private static void latencyOfStores() {
+        for (int[] c : ONE_TO_EIGHT) {
+            CycleChip chip = new CycleChip(c[0], 8);
+            Asm.put(chip, 0, Asm.sw(1, 256, 0), Asm.STAY);
+            chip.give(1, 5);
+            Due.same("latency " + c[0] + " store acts", chip.run(2 + 4 * c[1]), 1);
+            chip.run(c[1]);
+            Due.same("latency " + c[0] + " store early", chip.peek(64), 0);
+            chip.run(1);
+            Due.same("latency " + c[0] + " store in time", chip.peek(64), 5);
+        }
+    }
+
+    /** "DEVICE (1 cycle)", whatever the latency is. */
+    private static void latencyIsNotThatOfDevices() {
+        for (int[] c : ONE_TO_EIGHT) {
+            CycleChip chip = new CycleChip(c[0], 8);
+            Asm.put(chip, 0, Asm.deviceBase(), Asm.loadDevice(1, 14), Asm.STAY);
+            chip.run(4 + 4 * c[1]);
+            Due.same("latency " + c[0] + " device early", chip.register(1), 0);
+            chip.run(1);
+            Due.same("latency " + c[0] + " device in time", chip.register(1), 1);
+        }
+    }
+
+    /** "N is lines, but at least 1 and at most 8": block 0 leaves the cache when block N is fetched, and not before. */
+    private static void linesOfCode() {
+        for (int[] c : ONE_TO_EIGHT) {
+            for (int block = 1; block < 32; block++) {
                 CycleChip chip = new CycleChip(1, c[0]);
                 Asm.put(chip, 0, Asm.jal(0, 16 * block));
                 Asm.put(chip, 4 * block, Asm.STAY);
@@ -67,6 +102,22 @@ public final class ObjectTest {
         }
     }
 
+    /** "N is lines, but at least 1 and at most 8": the data cache has as many lines as the other. */
+    private static void linesOfData() {
+        for (int[] c : ONE_TO_EIGHT) {
+            for (int block = 0; block < 32; block++) {
+                CycleChip chip = new CycleChip(1, c[0]);
+                Asm.put(chip, 0, Asm.lw(1, 16 * 10, 0), Asm.lw(1, 16 * block, 0), Asm.STAY);
+                chip.poke(41, 41);
+                chip.run(20);
+                boolean gone = block != 10 && block % c[1] == 10 % c[1];
+                Due.same("lines " + c[0] + " block 10 after " + block, chip.held(false, 41), gone ? -1 : 41);
+                Due.same("lines " + c[0] + " data block " + block, chip.held(false, 4 * block), chip.peek(4 * block));
+            }
+        }
+    }
+
+    /** "At first DIVISOR is 1, COMPARE all ones, the others are 0", and DATA is -1, for nothing has been received. */
     private static void devicesAtFirst() {
         int[] want = {0, 0, -1, -1, 0, 0, 0, 0, 0, 0, 0, 0, -1, 0, 1, 0};
         for (int r = 1; r < 16; r++) {
@@ -84,5 +135,26 @@ public final class ObjectTest {
         Due.same("one object's word", one.peek(64), 5);
         Due.same("the other object's word", other.peek(64), 0);
         Due.same("the other object's cycles", other.cycles(), 0);
+    }
+
+    /** A chip after 511 calls; its loop of two instructions takes four cycles and keeps the sending queue full. */
+    private static CycleChip afterAllCallsButOne() {
+        CycleChip chip = Asm.chip(Asm.deviceBase(), Asm.storeDevice(1, 12), Asm.jal(0, -4));
+        for (int k = 0; k < 508; k++) {
+            chip.run(1000);
+        }
+        return chip;
+    }
+
+    /** "An object is used for at most 512 calls": the last of them is answered like the first. */
+    private static void lastOfAllCalls() {
+        Due.same("call 512: cycles", afterAllCallsButOne().cycles(), 508000);
+        Due.same("call 512: CYCLE", afterAllCallsButOne().control(Asm.CYCLE), 508000);
+        Due.same("call 512: peek", afterAllCallsButOne().peek(2), Asm.jal(0, -4));
+        Due.same("call 512: plan", afterAllCallsButOne().plan(2000, 0, 1), true);
+        Due.same("call 512: actCycle", afterAllCallsButOne().actCycle(0), 507996);
+        Due.same("call 512: sent", afterAllCallsButOne().sent(0), 507999 * 256L);
+        Due.same("call 512: sent count", afterAllCallsButOne().sent(-1), 50799);
+        Due.same("call 512: run", afterAllCallsButOne().run(1000), 500);
     }
 }

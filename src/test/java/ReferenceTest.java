@@ -2,14 +2,16 @@ import java.util.Random;
 
 /** Random programs and calls (from fixed seeds), answered by the program and by Reference alike. */
 public final class ReferenceTest {
-    private static final int OBJECTS = 800;
-    private static final int CALLS = 150;
+    private static final int OBJECTS = 8000;
+    private static final int CALLS = 512;
+    private static final int CALLS_AT_LAST = 130;
     private static final int[] CONTROLS = {768, 772, 773, 832, 833, 834, 835, 836, 3072};
 
     private final Random random;
     private final CycleChip chip;
     private final Reference reference;
     private final String name;
+    private int calls;
 
     private ReferenceTest(int seed) {
         random = new Random(seed);
@@ -24,10 +26,11 @@ public final class ReferenceTest {
         for (int seed = 0; seed < OBJECTS && Due.wrong() == 0; seed++) {
             ReferenceTest test = new ReferenceTest(seed);
             test.prepare();
-            for (int k = 0; k < CALLS && Due.wrong() == 0; k++) {
+            while (test.calls < CALLS - CALLS_AT_LAST && Due.wrong() == 0) {
                 test.call();
-                test.compareAll();
+                test.look();
             }
+            test.lookAtAll();
         }
         Due.end();
     }
@@ -138,12 +141,22 @@ public final class ReferenceTest {
         }
     }
 
+    /** Each call of the chip is counted, since no promise holds after the 512th. */
+    private void same(String what, long got, long want) {
+        calls++;
+        Due.same(name + "call " + calls + ", cycle " + reference.cycles() + ": " + what, got, want);
+    }
+
+    private void same(String what, boolean got, boolean want) {
+        same(what, got ? 1 : 0, want ? 1 : 0);
+    }
+
     private void poke(int p, int w) {
-        Due.same(name + "poke", chip.poke(p, w), reference.poke(p, w));
+        same("poke", chip.poke(p, w), reference.poke(p, w));
     }
 
     private void give(int k, int v) {
-        Due.same(name + "give", chip.give(k, v), reference.give(k, v));
+        same("give", chip.give(k, v), reference.give(k, v));
     }
 
     private void call() {
@@ -158,40 +171,77 @@ public final class ReferenceTest {
             int delay = random.nextInt(10) == 0 ? random.nextInt(2010) - 5 : random.nextInt(40);
             int what = random.nextInt(3) == 0 ? 0 : random.nextInt(10) - 1;
             int sent = random.nextInt(3) == 0 ? 0 : random.nextInt();
-            Due.same(name + "plan", chip.plan(delay, what, sent), reference.plan(delay, what, sent));
+            same("plan", chip.plan(delay, what, sent), reference.plan(delay, what, sent));
         } else {
             int n = random.nextInt(10) == 0 ? random.nextInt(300) : random.nextInt(16) - 1;
-            Due.same(name + "run " + n, chip.run(n), reference.run(n));
+            same("run " + n, chip.run(n), reference.run(n));
         }
     }
 
-    private void compareAll() {
-        String at = name + "cycle " + reference.cycles() + " ";
-        Due.same(at + "pc", chip.pc(), reference.pc());
-        Due.same(at + "cycles", chip.cycles(), reference.cycles());
-        Due.same(at + "traps", chip.traps(), reference.traps());
-        Due.same(at + "planned", chip.planned(), reference.planned());
-        Due.same(at + "stores", chip.stores(), reference.stores());
-        Due.same(at + "bus", chip.bus(), reference.bus());
-        Due.same(at + "sources", chip.sources(), reference.sources());
-        Due.same(at + "queued", chip.queued(true), reference.queued(true));
-        Due.same(at + "queued", chip.queued(false), reference.queued(false));
-        for (int p = -1; p <= 128; p++) {
-            Due.same(at + "peek " + p, chip.peek(p), reference.peek(p));
-            Due.same(at + "held code " + p, chip.held(true, p), reference.held(true, p));
-            Due.same(at + "held data " + p, chip.held(false, p), reference.held(false, p));
+    /** Looks at one or two things, most often at those that change most often. */
+    private void look() {
+        for (int k = random.nextInt(2); k >= 0; k--) {
+            int kind = random.nextInt(16);
+            if (kind < 9) {
+                lookAtCount(kind);
+            } else if (kind < 12) {
+                lookAtWord(random.nextInt(132) - 2);
+            } else if (kind < 14) {
+                lookAtRegister(random.nextInt(8));
+            } else {
+                lookAtControl(CONTROLS[random.nextInt(9)] + random.nextInt(9) / 8);
+            }
         }
-        for (int k = -1; k <= 32; k++) {
-            Due.same(at + "register " + k, chip.register(k), reference.register(k));
+    }
+
+    private void lookAtCount(int kind) {
+        switch (kind) {
+            case 0: same("pc", chip.pc(), reference.pc()); break;
+            case 1: same("cycles", chip.cycles(), reference.cycles()); break;
+            case 2: same("traps", chip.traps(), reference.traps()); break;
+            case 3: same("planned", chip.planned(), reference.planned()); break;
+            case 4: same("stores", chip.stores(), reference.stores()); break;
+            case 5: same("bus", chip.bus(), reference.bus()); break;
+            case 6: same("sources", chip.sources(), reference.sources()); break;
+            case 7: same("sending", chip.queued(true), reference.queued(true)); break;
+            default: same("received", chip.queued(false), reference.queued(false));
+        }
+    }
+
+    private void lookAtWord(int p) {
+        switch (random.nextInt(3)) {
+            case 0: same("peek " + p, chip.peek(p), reference.peek(p)); break;
+            case 1: same("held code " + p, chip.held(true, p), reference.held(true, p)); break;
+            default: same("held data " + p, chip.held(false, p), reference.held(false, p));
+        }
+    }
+
+    private void lookAtRegister(int k) {
+        same("register " + k, chip.register(k), reference.register(k));
+    }
+
+    private void lookAtControl(int n) {
+        same("control " + n, chip.control(n), reference.control(n));
+    }
+
+    /** With the calls that are left: everything but the words, and some of these. */
+    private void lookAtAll() {
+        for (int kind = 0; kind < 9; kind++) {
+            lookAtCount(kind);
         }
         for (int n : CONTROLS) {
-            Due.same(at + "control " + n, chip.control(n), reference.control(n));
-            Due.same(at + "control " + (n + 1), chip.control(n + 1), reference.control(n + 1));
+            lookAtControl(n);
         }
-        for (int k = -2; k <= 17; k++) {
-            Due.same(at + "sent " + k, chip.sent(k), reference.sent(k));
-            Due.same(at + "actCycle " + k, chip.actCycle(k), reference.actCycle(k));
-            Due.same(at + "actAddress " + k, chip.actAddress(k), reference.actAddress(k));
+        for (int k = -1; k <= 32; k++) {
+            lookAtRegister(k);
+        }
+        for (int k = -1; k <= 16; k++) {
+            same("sent " + k, chip.sent(k), reference.sent(k));
+            same("actCycle " + k, chip.actCycle(k), reference.actCycle(k));
+            same("actAddress " + k, chip.actAddress(k), reference.actAddress(k));
+        }
+        while (calls < CALLS) {
+            lookAtWord(random.nextInt(128));
         }
     }
 }

@@ -1,28 +1,54 @@
 /** Promises 11 to 15: run, cycles, traps, actCycle, actAddress. */
 public final class RunTest {
     public static void main(String[] args) {
-        limits();
+        runTooSmallOrTooLarge();
+        runOfNoCycle();
+        runOfMostCycles();
         straightOn();
         rests();
         logOfActs();
+        logRefusesOthers();
         twoInOneCycle();
         trapsAreNoActs();
         inSteps();
         Due.end();
     }
 
-    private static void limits() {
+    /** run: "-1, and no cycle, for another n". */
+    private static void runTooSmallOrTooLarge() {
         CycleChip chip = Asm.chip(Asm.STAY);
-        for (int n : new int[] {-1, 1001, Integer.MIN_VALUE, Integer.MAX_VALUE}) {
+        chip.plan(0, 0, 1);
+        for (int n : new int[] {-1, -1000, 1001, 1002, 2000, Integer.MIN_VALUE, Integer.MAX_VALUE}) {
             Due.same("run " + n, chip.run(n), -1);
             Due.same("cycles after run " + n, chip.cycles(), 0);
+            Due.same("planned after run " + n, chip.planned(), 1);
         }
+        Due.same("then the first cycles", chip.run(6), 1);
+        Due.same("cycles", chip.cycles(), 6);
+    }
+
+    /** run: "n cycles (0 .. 1000)", the least. */
+    private static void runOfNoCycle() {
+        CycleChip chip = Asm.chip(Asm.STAY);
+        chip.plan(0, 0, 1);
         Due.same("run 0", chip.run(0), 0);
         Due.same("cycles after run 0", chip.cycles(), 0);
+        Due.same("nothing happens in it", chip.planned(), 1);
+        chip.run(5);
+        Due.same("run 0 before an act", chip.run(0), 0);
+        Due.same("run 1 is that act", chip.run(1), 1);
+        Due.same("run 0 behind an act", chip.run(0), 0);
+    }
+
+    /** run: "n cycles (0 .. 1000)", the most. */
+    private static void runOfMostCycles() {
+        CycleChip chip = Asm.chip(Asm.STAY);
         Due.same("run 1000", chip.run(1000), 498);
         Due.same("cycles after run 1000", chip.cycles(), 1000);
         Due.same("run 1", chip.run(1), 0);
         Due.same("cycles after run 1", chip.cycles(), 1001);
+        Due.same("run 999", chip.run(999), 500);
+        Due.same("cycles after run 999", chip.cycles(), 2000);
         Due.same("no trap", chip.traps(), 0);
     }
 
@@ -46,6 +72,7 @@ public final class RunTest {
         Due.same("register", chip.register(1), 12);
     }
 
+    /** "Rests for k cycles": for 1, for 7 and not at all. */
     private static void rests() {
         int[][] cases = {{Asm.NOP, 0}, {Asm.mul(1, 2, 3), 1}, {Asm.r(51, 1, 1, 1, 2, 3), 1},
             {Asm.r(51, 2, 1, 1, 2, 3), 1}, {Asm.r(51, 3, 1, 1, 2, 3), 1}, {Asm.div(1, 2, 3), 7},
@@ -62,17 +89,33 @@ public final class RunTest {
         }
     }
 
-    private static void logOfActs() {
+    /** A loop whose k-th act is told by cycleOf and addressOf, when so many have acted. */
+    private static CycleChip afterActs(int acted) {
         CycleChip chip = Asm.chip(Asm.NOP, Asm.addi(1, 1, 1), Asm.branch(0, 0, 0, -4));
+        Due.same("acts until " + acted, chip.run(acted == 0 ? 0 : cycleOf(acted - 1) + 1), acted);
+        return chip;
+    }
+
+    /** actCycle, actAddress: "-1 when ... not so many have acted", for 0 acts, up to 15, 16, and more than 16. */
+    private static void logOfActs() {
         for (int acted = 0; acted < 40; acted++) {
-            for (int k = -2; k < 20; k++) {
-                boolean known = k >= 0 && k < 16 && k < acted;
+            CycleChip chip = afterActs(acted);
+            for (int k = 0; k < 16; k++) {
+                boolean known = k < acted;
                 Due.same("actCycle " + k + " of " + acted, chip.actCycle(k), known ? cycleOf(acted - 1 - k) : -1);
                 Due.same("actAddress " + k + " of " + acted, chip.actAddress(k), known ? addressOf(acted - 1 - k) : -1);
             }
-            Due.same("actCycle MIN", chip.actCycle(Integer.MIN_VALUE), -1);
-            Due.same("actAddress MAX", chip.actAddress(Integer.MAX_VALUE), -1);
-            Due.same("one more", chip.run(cycleOf(acted) + 1 - chip.cycles()), 1);
+        }
+    }
+
+    /** actCycle, actAddress: "-1 when k is not 0 .. 15", though more than 16 have acted. */
+    private static void logRefusesOthers() {
+        for (int acted : new int[] {0, 1, 15, 16, 17, 33, 200}) {
+            CycleChip chip = afterActs(acted);
+            for (int k : new int[] {-1, -2, -16, 16, 17, 32, Integer.MIN_VALUE, Integer.MAX_VALUE}) {
+                Due.same("actCycle " + k + " of " + acted, chip.actCycle(k), -1);
+                Due.same("actAddress " + k + " of " + acted, chip.actAddress(k), -1);
+            }
         }
     }
 
@@ -97,6 +140,7 @@ public final class RunTest {
         Due.same("TIME in that cycle", chip.register(1), 8);
     }
 
+    /** run: "(one that raised a TRAP did not)" act. */
     private static void trapsAreNoActs() {
         CycleChip chip = Asm.chip(Asm.li(1, 2), Asm.csrrw(0, Asm.MTVEC, 1), Asm.ECALL);
         Due.same("two act", chip.run(8), 2);

@@ -9,14 +9,20 @@ public final class SourcesTest {
         endOfOthersDoesNothing();
         otherRegistersEndNothing();
         greatestPriorityFirst();
+        leastOfEquals();
+        noneIsRaised();
         raisedOrNot();
         registersAreKept();
+        inServiceIsNotPending();
+        pendingWhateverIsEnabled();
+        lineOfSourceOne();
         serialSource();
         serialSourceOfSending();
         pendingRegister();
         Due.end();
     }
 
+    /** "(and stays so, whatever its line does, until it is claimed)". */
     private static void pendingStays() {
         CycleChip chip = new CycleChip(1, 1);
         chip.plan(1, 3, 1);
@@ -83,6 +89,7 @@ public final class SourcesTest {
         }
     }
 
+    /** "storing v ends that source v is in service, if it is": v is not that source, or none at all. */
     private static void endOfOthersDoesNothing() {
         for (int v : new int[] {0, 1, 2, 4, 6, 7, 8, 37, -27, 5 + 256, Integer.MIN_VALUE, -1}) {
             CycleChip chip = controller(254, 0x11111111, 0, Asm.loadDevice(1, 6), Asm.storeDevice(2, 6), Asm.STAY);
@@ -122,6 +129,78 @@ public final class SourcesTest {
         Due.same("all in service", chip.sources(), 252 * IN_SERVICE);
     }
 
+    /** CLAIM: "the raised source of greatest priority, of equals the least", source 1 among them. */
+    private static void leastOfEquals() {
+        int[] words = new int[10];
+        words[0] = Asm.storeDevice(24, 15);
+        for (int k = 1; k <= 8; k++) {
+            words[k] = Asm.loadDevice(k, 6);
+        }
+        words[9] = Asm.STAY;
+        for (int priority : new int[] {1, 7}) {
+            CycleChip chip = controller(254, priority * 0x11111111, 0, words);
+            chip.give(24, 2);
+            chip.give(8, 99);
+            for (int s = 7; s >= 2; s--) {
+                chip.plan(0, s, 1);
+            }
+            chip.run(100);
+            for (int k = 1; k <= 7; k++) {
+                Due.same("claim " + k + " with priority " + priority, chip.register(k), k);
+            }
+            Due.same("and no eighth", chip.register(8), 0);
+            Due.same("all in service", chip.sources(), 254 * IN_SERVICE);
+        }
+    }
+
+    /** CLAIM: "0 when none is raised", and nothing changes then: none pending, not enabled, of too low a priority. */
+    private static void noneIsRaised() {
+        int[][] cases = {{254, -1, 0, 0}, {0, -1, 0, 1}, {254 - 8, -1, 0, 1}, {254, 0, 0, 1}, {254, -1, 7, 1}};
+        for (int[] c : cases) {
+            CycleChip chip = controller(c[0], c[1], c[2], Asm.loadDevice(1, 6), Asm.loadDevice(2, 6), Asm.STAY);
+            chip.give(1, 99);
+            chip.give(2, 99);
+            chip.plan(0, 3, c[3]);
+            chip.run(60);
+            Due.same("claim", chip.register(1), 0);
+            Due.same("claim again", chip.register(2), 0);
+            Due.same("sources", chip.sources(), 8 * c[3]);
+            Due.same("MIP", chip.control(Asm.MIP), 0);
+        }
+    }
+
+    /** "which is not IN SERVICE becomes PENDING": one in service does not, though its line is low and high again. */
+    private static void inServiceIsNotPending() {
+        CycleChip chip = controller(254, 0x11111111, 0, Asm.loadDevice(1, 6), Asm.STAY);
+        chip.plan(0, 5, 1);
+        chip.plan(60, 5, 0);
+        chip.plan(70, 5, 1);
+        chip.plan(70, 4, 1);
+        chip.run(70);
+        Due.same("in service", chip.sources(), 32 * IN_SERVICE);
+        chip.run(10);
+        Due.same("another becomes pending", chip.sources(), 16 + 32 * IN_SERVICE);
+    }
+
+    /** A source becomes pending whatever ENABLE, PRIORITIES and THRESHOLD are, and stays so when they change. */
+    private static void pendingWhateverIsEnabled() {
+        CycleChip chip = controller(0, 0, 7, Asm.storeDevice(1, 4), Asm.storeDevice(1, 8), Asm.storeDevice(0, 5),
+            Asm.storeDevice(0, 4), Asm.STAY);
+        chip.give(1, -1);
+        for (int s = 2; s < 8; s++) {
+            chip.plan(s, s, 1);
+            chip.plan(s + 1, s, 0);
+        }
+        chip.run(10);
+        Due.same("pending", chip.sources(), 252);
+        runBehind(chip, 24);
+        Due.same("raised", chip.control(Asm.MIP), 2048);
+        runBehind(chip, 28);
+        Due.same("raised no more", chip.control(Asm.MIP), 0);
+        Due.same("pending still", chip.sources(), 252);
+    }
+
+    /** "RAISED while it is pending, its bit of ENABLE is set and its priority is greater than THRESHOLD". */
     private static void raisedOrNot() {
         int[][] cases = {{16, 0x50000, 4, 1}, {16, 0x50000, 5, 0}, {16, 0x50000, 7, 0}, {16, 0x70000, 6, 1},
             {16, 0, 0, 0}, {16, 0x10000, 0, 1}, {0, 0x70000, 0, 0}, {8, 0x77777, 0, 0}, {239, 0x70000, 0, 0},
@@ -139,16 +218,44 @@ public final class SourcesTest {
         }
     }
 
+    /** "4 ENABLE (254 of what is stored)", THRESHOLD "(7 of it)", PRIORITIES "(2004318064 of it)", and 7, 9, 10, 11. */
     private static void registersAreKept() {
         int[] registers = {4, 5, 7, 8, 9, 10, 11};
         int[] kept = {254, 7, 0, 2004318064, 0, 0, 0};
         for (int k = 0; k < registers.length; k++) {
-            CycleChip chip = Asm.chip(Asm.deviceBase(), Asm.storeDevice(1, registers[k]), Asm.loadDevice(2, registers[k]),
-                Asm.STAY);
-            chip.give(1, -1);
-            chip.run(30);
-            Due.same("device register " + registers[k], chip.register(2), kept[k]);
-            Due.same("no source", chip.sources(), 0);
+            for (int v : new int[] {-1, 0, 1, 7, 8, 15, 254, 255, 256, 0x55555555, 0xAAAAAAAA, 0x88888888, Integer.MIN_VALUE}) {
+                CycleChip chip = Asm.chip(Asm.deviceBase(), Asm.storeDevice(1, registers[k]), Asm.loadDevice(2, registers[k]),
+                    Asm.STAY);
+                chip.give(1, v);
+                chip.give(2, 12345);
+                chip.run(30);
+                Due.same("device register " + registers[k] + " of " + v, chip.register(2), v & kept[k]);
+                Due.same("no source", chip.sources(), 0);
+            }
+        }
+    }
+
+    /**
+     * "high when the received queue is not empty and bit 0 of ENABLES is set, or the sending queue is empty and bit 1 of
+     * ENABLES is set": with a divisor of 255 the second of two bytes waits in the sending queue.
+     */
+    private static void lineOfSourceOne() {
+        for (int k = 0; k < 16; k++) {
+            int enables = k & 3;
+            boolean received = (k & 4) != 0;
+            boolean sending = (k & 8) != 0;
+            int word = sending ? Asm.storeDevice(0, 12) : Asm.NOP;
+            CycleChip chip = Asm.chip(Asm.deviceBase(), Asm.storeDevice(1, 14), word, word, Asm.storeDevice(2, 15), Asm.STAY);
+            chip.give(1, 255);
+            chip.give(2, enables);
+            if (received) {
+                chip.plan(0, 0, 1);
+            }
+            chip.run(100);
+            Due.same("received", chip.queued(false), received ? 1 : 0);
+            Due.same("sending", chip.queued(true), sending ? 1 : 0);
+            boolean high = received && enables % 2 == 1 || !sending && enables >= 2;
+            Due.same("source 1 with " + enables + ", " + received + ", " + sending, chip.sources(), high ? 2 : 0);
         }
     }
 

@@ -4,12 +4,18 @@ public final class TrapTest {
     private static final int WAS_ON = 128;
 
     public static void main(String[] args) {
-        trapsOfAddresses();
         trapsOfCalls();
         statusOfATrap();
         pcOutside();
+        pcRunsOutOfTheMemory();
+        pcBelowTheMemory();
+        lastWordIsDone();
+        trapsRest();
         returning();
         timerInterrupt();
+        interruptRests();
+        interruptNeedsAllThree();
+        vectorWraps();
         outsideBeforeTimer();
         interruptBeforePcTrap();
         interruptOfAHoldingStore();
@@ -17,30 +23,6 @@ public final class TrapTest {
         sleepAndWake();
         awakeAtOnce();
         Due.end();
-    }
-
-    private static void trapsOfAddresses() {
-        int[][] cases = {{0, -1}, {508, -1}, {512, 5}, {516, 5}, {-4, 5}, {Integer.MIN_VALUE, 5}, {4092, 5}, {4096, -1},
-            {4156, -1}, {4160, 5}, {8192, 5}, {1, 4}, {2, 4}, {3, 4}, {509, 4}, {513, 4}, {-1, 4}, {4097, 4}, {4161, 4},
-            {4095, 4}, {Integer.MAX_VALUE, 4}};
-        for (int[] c : cases) {
-            for (int storing = 0; storing < 2; storing++) {
-                CycleChip chip = Asm.chip(storing == 1 ? Asm.sw(2, 0, 1) : Asm.lw(2, 0, 1), Asm.STAY);
-                chip.give(1, c[0]);
-                chip.give(2, 7);
-                boolean traps = c[1] >= 0;
-                chip.run(6);
-                String what = (storing == 1 ? "store at " : "load from ") + c[0];
-                Due.same(what + " traps", chip.traps(), traps ? 1 : 0);
-                Due.same(what + " cause", chip.control(Asm.MCAUSE), traps ? c[1] + 2 * storing : 0);
-                Due.same(what + " value", chip.control(Asm.MTVAL), traps ? c[0] : 0);
-                if (traps) {
-                    Due.same(what + " register", chip.register(2), 7);
-                    Due.same(what + " stores", chip.stores(), 0);
-                    Due.same(what + " acts", chip.actCycle(0), -1);
-                }
-            }
-        }
     }
 
     private static void trapsOfCalls() {
@@ -88,6 +70,64 @@ public final class TrapTest {
         Due.same("the bus is idle", chip.bus(), 0);
     }
 
+    /** "PC is not one of 0, 4, .. 508: TRAP 1 with PC": behind the last word comes 512. */
+    private static void pcRunsOutOfTheMemory() {
+        CycleChip chip = Asm.chip(Asm.jal(0, 508));
+        chip.poke(127, Asm.li(1, 1));
+        chip.run(13);
+        Due.same("the last word acts", chip.register(1), 1);
+        Due.same("at its address", chip.actAddress(0), 508);
+        Due.same("pc behind it", chip.pc(), 512);
+        Due.same("no trap yet", chip.traps(), 0);
+        Due.same("nothing acts there", chip.run(1), 0);
+        Due.same("cause", chip.control(Asm.MCAUSE), 1);
+        Due.same("value", chip.control(Asm.MTVAL), 512);
+        Due.same("address", chip.control(Asm.MEPC), 512);
+        Due.same("nothing was wanted", chip.bus(), 0);
+    }
+
+    /** "PC is not one of 0, 4, .. 508: TRAP 1 with PC": below 0, and far above, by a jump or by a return. */
+    private static void pcBelowTheMemory() {
+        for (int address : new int[] {-4, -512, Integer.MIN_VALUE, 512, 4096, Integer.MAX_VALUE - 3}) {
+            for (int way = 0; way < 2; way++) {
+                CycleChip chip = Asm.chip(Asm.csrrw(0, Asm.MEPC, 1), way == 0 ? Asm.MRET : Asm.jalr(0, 1, 0));
+                chip.give(1, address);
+                Due.same("both act", chip.run(7), 2);
+                Due.same("pc", chip.pc(), address);
+                Due.same("rest", chip.run(1), 0);
+                Due.same("no trap while it rests", chip.traps(), 0);
+                Due.same("no act", chip.run(1), 0);
+                Due.same("trap with pc " + address, chip.traps(), 1);
+                Due.same("cause with pc " + address, chip.control(Asm.MCAUSE), 1);
+                Due.same("value with pc " + address, chip.control(Asm.MTVAL), address);
+                Due.same("address with pc " + address, chip.control(Asm.MEPC), address);
+            }
+        }
+    }
+
+    /** "0, 4, .. 508": the last of them is no trap. */
+    private static void lastWordIsDone() {
+        CycleChip chip = Asm.chip(Asm.csrrw(0, Asm.MEPC, 1), Asm.MRET);
+        chip.give(1, 511);
+        chip.poke(127, Asm.STAY);
+        chip.run(100);
+        Due.same("no trap", chip.traps(), 0);
+        Due.same("pc", chip.pc(), 508);
+        Due.same("acts there", chip.actAddress(0), 508);
+    }
+
+    /** TRAP: "the core rests for 1 cycle", then goes on at MTVEC. */
+    private static void trapsRest() {
+        for (int w : new int[] {Asm.ECALL, Asm.EBREAK, 0, Asm.jal(0, 2), Asm.lw(1, 1, 0), Asm.sw(1, 512, 0)}) {
+            CycleChip chip = Asm.chip(Asm.li(1, 12), Asm.csrrw(0, Asm.MTVEC, 1), w, Asm.STAY);
+            Due.same("two act before " + w, chip.run(8), 2);
+            Due.same("trap of " + w, chip.traps(), 1);
+            Due.same("rest after " + w, chip.run(1), 0);
+            Due.same("then after " + w, chip.run(1), 1);
+            Due.same("there after " + w, chip.actAddress(0), 12);
+        }
+    }
+
     private static void returning() {
         int[][] cases = {{0, WAS_ON}, {ON, WAS_ON}, {WAS_ON, ON | WAS_ON}, {ON | WAS_ON, ON | WAS_ON}};
         for (int[] c : cases) {
@@ -126,6 +166,48 @@ public final class TrapTest {
             Due.same("pc for " + vector, chip.pc(), vector % 2 == 0 ? 128 : 156);
             chip.run(50);
             Due.same("off until the return, then the zeroes trap", chip.control(Asm.MCAUSE), 2);
+        }
+    }
+
+    /** INTERRUPT: "MCAUSE becomes n - 2^31", and "the core rests for 1 cycle": CODE is wanted only in the next. */
+    private static void interruptRests() {
+        CycleChip chip = timer(32);
+        chip.poke(8, Asm.STAY);
+        for (int k = 0; k < 100 && chip.traps() == 0; k++) {
+            chip.run(1);
+        }
+        Due.same("cause", chip.control(Asm.MCAUSE), -2147483641);
+        int taken = chip.cycles() - 1;
+        chip.run(2);
+        Due.same("wanted, not begun", chip.bus(), 0);
+        chip.run(1);
+        Due.same("begun", chip.bus(), 1);
+        chip.run(4);
+        Due.same("the first act there", chip.actCycle(0), taken + 2 + 5);
+    }
+
+    /** "(a) bit 3 of MSTATUS is set and MIP & MIE is not 0": each of the three may be missing. */
+    private static void interruptNeedsAllThree() {
+        for (int missing = 0; missing < 4; missing++) {
+            CycleChip chip = timer(128);
+            chip.give(1, missing == 1 ? 900 : 40);
+            chip.give(3, missing == 2 ? 2048 : -1);
+            chip.poke(5, Asm.csrrwi(0, Asm.MSTATUS, missing == 3 ? 0 : 8));
+            chip.run(60);
+            Due.same("taken, missing " + missing, chip.traps() > 0, missing == 0);
+        }
+    }
+
+    /** "Ints wrap.": so does (MTVEC & -4) + 4 * n, here from -4 to 24, and from -28 to 0. */
+    private static void vectorWraps() {
+        int[][] cases = {{-3, 24}, {-27, 0}, {-31, -4}, {-4, -4}, {Integer.MAX_VALUE - 2, Integer.MIN_VALUE + 24}};
+        for (int[] c : cases) {
+            CycleChip chip = timer(c[0]);
+            for (int k = 0; k < 100 && chip.traps() == 0; k++) {
+                chip.run(1);
+            }
+            Due.same("vector " + c[0], chip.pc(), c[1]);
+            Due.same("MTVEC " + c[0], chip.control(Asm.MTVEC), c[0]);
         }
     }
 
