@@ -103,7 +103,7 @@ public final class AddressTest {
         }
     }
 
-    /** t = xa + i and t = xa + s, with i and s from -2048 to 2047. */
+    /** "t = xa + i", "t = xa + s", with i and s from -2048 to 2047. */
     private static void leastAndGreatestOffset() {
         int[][] cases = {{2048, -2048, 0}, {2556, -2048, 508}, {-2044 + 508, 2044, 508}, {-2047 + 500, 2047, 500},
             {500 + 1, -1, 500}, {500 - 31, 31, 500}, {500 - 32, 32, 500}, {500 + 32, -32, 500}, {500 + 33, -33, 500}};

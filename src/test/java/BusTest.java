@@ -26,6 +26,7 @@ public final class BusTest {
         }
     }
 
+    /** "0 none, 1 CODE". */
     private static void codeRequest() {
         CycleChip chip = new CycleChip(2, 8);
         chip.poke(0, Asm.STAY);
@@ -35,6 +36,7 @@ public final class BusTest {
         busIs(chip, 20, 0, "there");
     }
 
+    /** "the buffer wants a STORE whenever it is not empty", and no more then; "STORE (L cycles)". */
     private static void storeRequest() {
         CycleChip chip = new CycleChip(3, 8);
         Asm.put(chip, 0, Asm.sw(1, 508, 0), Asm.STAY);
@@ -52,6 +54,7 @@ public final class BusTest {
         Due.same("written", chip.peek(127), 42);
     }
 
+    /** "2 DATA". */
     private static void dataRequest() {
         CycleChip chip = new CycleChip(3, 8);
         Asm.put(chip, 0, Asm.lw(1, 508, 0), Asm.STAY);
@@ -65,6 +68,7 @@ public final class BusTest {
         Due.same("in cycle", chip.actCycle(0), 26);
     }
 
+    /** "3 DEVICE". */
     private static void deviceRequest() {
         CycleChip chip = new CycleChip(8, 8);
         Asm.put(chip, 0, Asm.deviceBase(), Asm.loadDevice(1, 14), Asm.STAY);
@@ -143,7 +147,7 @@ public final class BusTest {
         Due.same("in cycle", chip.actCycle(0), 12);
     }
 
-    /** A block that the data cache holds is changed there at once, and loaded from there. */
+    /** "if the data cache holds the word, it changes there", and is loaded from there, whatever the buffer has. */
     private static void cachedLoadPassesTheBuffer() {
         CycleChip chip = new CycleChip(8, 8);
         Asm.put(chip, 0, Asm.lw(1, 256, 0), Asm.sw(2, 260, 0), Asm.lw(3, 260, 0), Asm.STAY);
@@ -164,7 +168,7 @@ public final class BusTest {
         Due.same("a store alone fills no line", other.held(false, 64), -1);
     }
 
-    /** The store acts in 18 and is done in 23; DEVICE is wanted in 23, begun in 24, done in 25. */
+    /** "A device register: if the buffer is not empty, it holds": the store is done in 23, when DEVICE is wanted. */
     private static void deviceHoldsForTheBuffer() {
         for (int word : new int[] {Asm.loadDevice(2, 0), Asm.storeDevice(2, 14)}) {
             CycleChip chip = new CycleChip(4, 8);
@@ -179,6 +183,10 @@ public final class BusTest {
         }
     }
 
+    /**
+     * "if the buffer is not empty, it holds; else it acts; with f = 1 no line of the code cache holds a block any
+     * more".
+     */
     private static void fences() {
         for (int fence : new int[] {Asm.FENCE, Asm.FENCE_I, Asm.FENCE | 0x0FF00000, Asm.FENCE_I | 31 << 7 | 31 << 15}) {
             CycleChip chip = new CycleChip(4, 8);
@@ -201,7 +209,7 @@ public final class BusTest {
         }
     }
 
-    /** With L = 2 the stores act in 9 and 10 and are done in 12 and 14: whatever holds for them goes on in 14. */
+    /** "if the buffer is not empty, it holds": with L = 2 the stores act in 9 and 10 and are done in 12 and 14. */
     private static void allHoldForTwoStores() {
         int[][] cases = {{Asm.lw(2, 256, 0), 0, 2}, {Asm.lw(2, 0, 31), 0, 3}, {Asm.sw(2, 4, 31), 0, 3}, {Asm.FENCE, 1, 0},
             {Asm.FENCE_I, 1, 0}};

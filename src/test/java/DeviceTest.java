@@ -92,6 +92,7 @@ public final class DeviceTest {
         }
     }
 
+    /** "(as numbers 0 .. 2^64 - 1)": a COMPARE and a TIME with their highest bits set. */
     private static void compareIsUnsigned() {
         int[][] cases = {{0, 5, 128}, {0, 500, 0}, {-1, 5, 0}, {1, 0, 0}, {Integer.MIN_VALUE, 0, 0}, {0, -1, 0}};
         for (int[] c : cases) {

@@ -92,6 +92,7 @@ public final class InstructionTest {
         gives("19 f " + f + " with " + constant, Asm.i(19, f, 3, 1, constant), xa, 55, want);
     }
 
+    /** "o = 19, with y = i": i is -2048 .. 2047; shifts are by 0 .. 31. */
     private static void constants() {
         constantOf(0, 2047, 1, 2048);
         constantOf(0, -2048, 1, -2047);
@@ -112,6 +113,7 @@ public final class InstructionTest {
         constantOf(7, -2048, 4095, 2048);
     }
 
+    /** "P being the exact product": its low word wraps, its high word is signed or unsigned. */
     private static void products() {
         int[][] cases = {{3, -5, -15, -1, 2, 2}, {-3, 5, -15, -1, -1, 4}, {-1, -1, 1, 0, -1, -2},
             {MIN, MIN, 0, 0x40000000, -0x40000000, 0x40000000}, {MIN, -1, MIN, 0, MIN, MAX},
@@ -180,6 +182,7 @@ public final class InstructionTest {
         Due.same("auipc at 8", chip.register(3), -4088);
     }
 
+    /** "(A jump that is not done only acts.)", though it would lead astray. */
     private static void branches() {
         int[][] pairs = {{1, 1}, {1, 2}, {2, 1}, {-1, 1}, {1, -1}, {MIN, MAX}, {MAX, MIN}, {-5, -5}};
         for (int[] p : pairs) {

@@ -16,6 +16,7 @@ public final class ObjectTest {
         Due.end();
     }
 
+    /** "All words, registers, PC and control registers 0, ... nothing in a queue, in the buffer or planned." */
     private static void allIsZero() {
         CycleChip chip = new CycleChip(3, 4);
         for (int p = 0; p < 128; p++) {

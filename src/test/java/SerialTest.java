@@ -30,7 +30,7 @@ public final class SerialTest {
         return 6 + 13 * (p / 4) + 2 * (p % 4);
     }
 
-    /** Stored in BUS of cycle 9, begun in SENDER of 10, out in 20. */
+    /** "(One that is being sent is in none.)": stored in BUS of cycle 9, begun in SENDER of 10, out in 20. */
     private static void oneByteOut() {
         CycleChip chip = Asm.chip(Asm.NOP, Asm.deviceBase(), Asm.storeDevice(1, 12), Asm.STAY);
         chip.give(1, 0x1234);
@@ -53,7 +53,7 @@ public final class SerialTest {
         Due.same("once", chip.sent(-1), 1);
     }
 
-    /** The stores are done in cycles 8, 10 and 18 (a block comes between); the first is begun in 9. */
+    /** "if no byte is being sent (any more)": the stores are done in cycles 8, 10 and 18; the first is begun in 9. */
     private static void oneAfterTheOther() {
         CycleChip chip = Asm.chip(Asm.deviceBase(), Asm.storeDevice(1, 12), Asm.storeDevice(2, 12), Asm.NOP,
             Asm.storeDevice(3, 12), Asm.STAY);
@@ -170,14 +170,14 @@ public final class SerialTest {
         return chip;
     }
 
-    /** SENDER is before BUS: the byte that is taken in a cycle makes room for the store of that cycle. */
+    /** "it is lost when that has 8 bytes": SENDER is before BUS, so that a byte begun in that cycle has made room. */
     private static void storeInTheCycleOfTheSender() {
         CycleChip chip = fullSender(Asm.loadDevice(2, 7), 51);
         Due.same("ten were out", chip.sent(-1), 10);
         Due.same("the last", chip.sent(0), 200 + 256 * (11 + 10 * 40));
     }
 
-    /** One cycle earlier the queue still has 8 bytes, and the byte is lost. */
+    /** "it is lost when that has 8 bytes": one cycle earlier the queue still has them. */
     private static void storeBeforeTheCycleOfTheSender() {
         CycleChip chip = fullSender(Asm.NOP, 50);
         Due.same("nine were out", chip.sent(-1), 9);
@@ -306,7 +306,7 @@ public final class SerialTest {
         }
     }
 
-    /** EVENTS is before BUS: the byte that is loaded in a cycle makes no room for one that comes in that cycle. */
+    /** "when that has 8 bytes, the byte is lost": EVENTS is before BUS, so that a load of that cycle comes too late. */
     private static void byteInTheCycleOfTheLoad() {
         for (int late = 0; late < 2; late++) {
             CycleChip chip = receiver(8);
@@ -319,7 +319,7 @@ public final class SerialTest {
         }
     }
 
-    /** Sixty bytes go through the received queue, five at a time, and none changes its place. */
+    /** "the first byte of the received queue": of sixty bytes, five at a time, none changes its place. */
     private static void queueGoesRound() {
         CycleChip chip = Asm.chip(Asm.deviceBase(), Asm.loadDevice(1, 12), Asm.branch(4, 1, 0, -4), Asm.mul(2, 2, 3),
             Asm.add(2, 2, 1), Asm.addi(4, 4, 1), Asm.jal(0, -20));

@@ -58,6 +58,7 @@ public final class SourcesTest {
         Due.same("the instruction at " + address + " acts", false, true);
     }
 
+    /** "which is pending no more and in service": and pending again when that has ended, for the line is high. */
     private static void claimAndEnd() {
         CycleChip chip = controller(254, 0x11111111, 0, Asm.loadDevice(1, 6), Asm.loadDevice(2, 6),
             Asm.storeDevice(1, 6), Asm.NOP, Asm.STAY);
@@ -76,6 +77,7 @@ public final class SourcesTest {
         Due.same("pending again, for the line is high", chip.sources(), 32);
     }
 
+    /** "storing v ends that source v is in service": of each source 2 .. 7. */
     private static void everySource() {
         for (int s = 2; s < 8; s++) {
             CycleChip chip = controller(254, 0x11111111, 0, Asm.loadDevice(1, 6), Asm.storeDevice(1, 6), Asm.STAY);
@@ -111,6 +113,7 @@ public final class SourcesTest {
         }
     }
 
+    /** "the raised source of greatest priority, of equals the least". */
     private static void greatestPriorityFirst() {
         int[] loads = new int[9];
         for (int k = 0; k < 8; k++) {
@@ -182,7 +185,7 @@ public final class SourcesTest {
         Due.same("another becomes pending", chip.sources(), 16 + 32 * IN_SERVICE);
     }
 
-    /** A source becomes pending whatever ENABLE, PRIORITIES and THRESHOLD are, and stays so when they change. */
+    /** "Every source 1 .. 7 whose line is high": whatever ENABLE, PRIORITIES and THRESHOLD are, and become. */
     private static void pendingWhateverIsEnabled() {
         CycleChip chip = controller(0, 0, 7, Asm.storeDevice(1, 4), Asm.storeDevice(1, 8), Asm.storeDevice(0, 5),
             Asm.storeDevice(0, 4), Asm.STAY);
@@ -259,7 +262,7 @@ public final class SourcesTest {
         }
     }
 
-    /** Bit 0 of ENABLES: the line is high while the received queue is not empty. */
+    /** "when the received queue is not empty and bit 0 of ENABLES is set", and no more when it is empty. */
     private static void serialSource() {
         CycleChip chip = Asm.chip(Asm.deviceBase(), Asm.storeDevice(1, 15), Asm.STAY);
         chip.give(1, 1);
@@ -291,7 +294,7 @@ public final class SourcesTest {
         Due.same("no more", chip.sources(), 0);
     }
 
-    /** Bit 1 of ENABLES: the line is high while the sending queue is empty. */
+    /** "the sending queue is empty and bit 1 of ENABLES is set". */
     private static void serialSourceOfSending() {
         CycleChip chip = Asm.chip(Asm.deviceBase(), Asm.storeDevice(1, 15), Asm.STAY);
         chip.give(1, 2);
@@ -311,6 +314,7 @@ public final class SourcesTest {
         Due.same("SENDER is before LINES", chip.sources(), 2);
     }
 
+    /** "7 the pending sources, source s as bit s; storing does nothing." */
     private static void pendingRegister() {
         CycleChip chip = controller(254, 0x11111111, 0, Asm.loadDevice(1, 7), Asm.loadDevice(2, 6), Asm.storeDevice(1, 7),
             Asm.loadDevice(3, 7), Asm.STAY);

@@ -49,7 +49,7 @@ public final class TrapTest {
         }
     }
 
-    /** A trap every second cycle while MTVEC leads to no word. */
+    /** "TRAP 1 with PC": one every second cycle while MTVEC leads to no word. */
     private static void pcOutside() {
         CycleChip chip = Asm.chip(Asm.csrrw(0, Asm.MTVEC, 1), Asm.jal(0, 508));
         chip.give(1, 2048);
@@ -152,6 +152,7 @@ public final class TrapTest {
         return chip;
     }
 
+    /** "PC becomes (MTVEC & -4) + 4 * n if bit 0 of MTVEC is set"; bit 1 is not kept. */
     private static void timerInterrupt() {
         for (int vector : new int[] {128, 129, 130, 131}) {
             CycleChip chip = timer(vector);
@@ -211,6 +212,7 @@ public final class TrapTest {
         }
     }
 
+    /** "the INTERRUPT 11 is taken when bit 11 of MIP & MIE is set, else the INTERRUPT 7": both are set. */
     private static void outsideBeforeTimer() {
         CycleChip chip = Asm.chip(Asm.deviceBase(), Asm.storeDevice(1, 4), Asm.storeDevice(2, 8), Asm.storeDevice(0, 3),
             Asm.storeDevice(0, 2), Asm.csrrw(0, Asm.MTVEC, 3), Asm.csrrw(0, Asm.MIE, 4), Asm.csrrsi(0, Asm.MSTATUS, 8));
@@ -245,7 +247,10 @@ public final class TrapTest {
         Due.same("value", chip.control(Asm.MTVAL), 0);
     }
 
-    /** The first run tells when the third store holds; in the second the interrupt is due then. */
+    /**
+     * "in the next cycle CORE begins anew with (a)": the first run tells when the third store holds; in the second the
+     * interrupt is due then.
+     */
     private static void interruptOfAHoldingStore() {
         CycleChip chip = new CycleChip(8, 8);
         Asm.put(chip, 0, Asm.jal(0, 64));
@@ -301,6 +306,7 @@ public final class TrapTest {
         Due.same("the block is there", chip.held(false, 64), 77);
     }
 
+    /** "If it is ASLEEP: nothing when MIP & MIE is 0, else it is awake and goes on." */
     private static void sleepAndWake() {
         for (int on = 0; on < 2; on++) {
             CycleChip chip = timer(128);
@@ -324,6 +330,7 @@ public final class TrapTest {
         Due.same("no trap", chip.traps(), 0);
     }
 
+    /** "else it is awake and goes on": MIP & MIE is not 0 from the first, and is 0 again later. */
     private static void awakeAtOnce() {
         CycleChip chip = Asm.chip(Asm.deviceBase(), Asm.storeDevice(0, 3), Asm.storeDevice(0, 2), Asm.csrrw(0, Asm.MIE, 3),
             Asm.WFI, Asm.li(5, 1), Asm.STAY);
