@@ -587,7 +587,7 @@ public final class CycleChip {
         private int wanted = NONE;
         private int block;
         private int doneCycle;
-        private boolean coreWasLast;
+        private int begunBefore = NONE;
         int served = NONE;
 
         Bus(int latency, int[] memory, Cache code, Cache data, StoreBuffer buffer) {
@@ -629,14 +629,14 @@ public final class CycleChip {
             if (served != NONE || wanted == NONE && !storeWanted) {
                 return;
             }
-            if (wanted != NONE && !(storeWanted && coreWasLast)) {
+            boolean coreIsFirst = begunBefore == STORE || begunBefore == NONE;
+            if (wanted != NONE && (coreIsFirst || !storeWanted)) {
                 served = wanted;
                 wanted = NONE;
-                coreWasLast = true;
             } else {
                 served = STORE;
-                coreWasLast = false;
             }
+            begunBefore = served;
             doneCycle = now + duration(served);
         }
 
